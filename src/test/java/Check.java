@@ -207,4 +207,66 @@ final class Check {
         fails(what, due, call);
         is(what + " changes nothing", all(x), was);
     }
+
+    // ---- scripts of calls
+
+    /** Makes calls written as "insert a, move -1, copy 0 2"; returns the last answer. */
+    static int play(Foldback x, String script) {
+        int answer = 0;
+        for (String call : script.split(", *")) {
+            String[] words = call.trim().split(" +");
+            answer = playOne(x, words[0], number(words, 1), number(words, 2));
+        }
+        return answer;
+    }
+
+    /** A single sign stands for its character behind insert, overwrite and search, anything else for a number. */
+    private static int number(String[] words, int i) {
+        if (i >= words.length) {
+            return 0;
+        }
+        boolean sign = words[i].length() == 1 && (words[0].equals("insert") || words[0].equals("overwrite") || words[0].equals("search"));
+        return sign ? words[i].charAt(0) : words[i].equals("left") ? 0 : words[i].equals("right") ? 1 : Integer.parseInt(words[i]);
+    }
+
+    private static int playOne(Foldback x, String name, int a, int b) {
+        switch (name) {
+            case "insert": return x.insert(a);
+            case "overwrite": return x.overwrite(a);
+            case "delete": return x.delete(a);
+            case "move": return x.move(a);
+            case "search": return x.search(a);
+            case "kill": return x.kill(a);
+            case "yank": return x.yank();
+            case "rotate": return x.rotate();
+            case "copy": return x.copy(a, b);
+            case "paste": return x.paste(a);
+            case "setMark": return x.setMark(a, b == 1);
+            case "clearMark": return x.clearMark(a);
+            case "jump": return x.jump(a);
+            case "narrow": return x.narrow(a);
+            case "widen": return x.widen();
+            case "run": return x.run(a, b);
+            case "checkpoint": x.checkpoint(); return 0;
+            case "undo": return x.undo();
+            case "redo": return x.redo();
+            case "walk": return x.walk(a);
+            case "undoIn": return x.undoIn(a, b);
+            case "open": x.open(); return 0;
+            case "close": return x.close();
+            case "pass": x.pass(a); return 0;
+            case "track": x.track(a); return 0;
+            case "setBookmark": return x.setBookmark(a);
+            case "clearBookmark": return x.clearBookmark(a);
+            case "setBudget": return x.setBudget(a);
+            default: throw new AssertionError("no such call: " + name);
+        }
+    }
+
+    /** Records a macro by making its calls. */
+    static void macro(Foldback x, int macro, String script) {
+        x.record(macro);
+        play(x, script);
+        x.stop();
+    }
 }
