@@ -214,6 +214,13 @@ public final class CommandTest {
         breaks("listen", x[15], () -> x[15].listen(0, '!', '?', 0));
         breaks("unlisten", x[16], () -> x[16].unlisten(0));
         breaks("setMark", x[17], () -> x[17].setMark(1, true));
+        breaks("track", x[18], () -> x[18].track(2));
+        breaks("undoIn", x[19], () -> x[19].undoIn(2, 2));
+        breaks("pass", x[20], () -> x[20].pass(4));
+        breaks("overwrite", x[21], () -> {
+            x[21].move(-1);
+            x[21].overwrite('o');
+        });
         Foldback behind = Check.withBlock("z");
         behind.move(-1);
         behind.insert('a');
@@ -451,7 +458,9 @@ public final class CommandTest {
         x.kill(1);
         Check.refuses("rotate of one", Check.ISE, x, () -> x.rotate());
         x.kill(1);
+        x.move(1);
         Check.is("rotate of two", x.rotate(), 2);
+        x.move(-1);
         Check.is("ring", Check.store(x, 4), "a|b");
         x.kill(1);
         x.kill(1);
@@ -723,6 +732,15 @@ public final class CommandTest {
         x.delete(2);
         Check.is("start", x.viewStart(), 3);
         Check.is("end", x.viewEnd(), 6);
+        // only an undo in a region inserts ahead of a view
+        Foldback z = Check.withBlock("0123456789");
+        Check.play(z, "move -8, delete 2, move 2, setMark 0 left, move 2, narrow 0, narrow 0");
+        z.undoIn(2, 2);
+        Check.is("start moves", z.viewStart(), 6);
+        Check.is("end moves", z.viewEnd(), 8);
+        z.widen();
+        Check.is("the outer start too", z.viewStart(), 6);
+        Check.is("the outer end too", z.viewEnd(), 8);
         // an undo in a region works whatever the view is
         Foldback y = Check.typed("ab");
         y.move(0);

@@ -142,6 +142,15 @@ public final class RunTest {
         Check.is("reason", x.failureReason(), Foldback.NOT_FOUND);
         Check.is("command", x.failureCommand(), 6);
         Check.is("text", Check.text(x), "ab");
+        Foldback y = Check.withBlock("abcdef");
+        Check.play(y, "move -3, setMark 0 left, move -2, setMark 1 left, move 4, narrow 0");
+        Check.macro(y, 0, "widen, move -1, narrow 1, move -3");
+        Check.play(y, "widen, move 4, narrow 0, move -1");
+        Check.is("another view in the place of the one that was there", y.run(0, 1), 0);
+        Check.is("command", y.failureCommand(), 3);
+        Check.is("start", y.viewStart(), 3);
+        Check.is("end", y.viewEnd(), 5);
+        Check.is("point", y.point(), 4);
         Check.is("view", x.viewStart(), 0);
         Check.is("view", x.viewEnd(), 1);
         Check.is("point", x.point(), 1);
@@ -398,6 +407,12 @@ public final class RunTest {
         x.unlisten(1);
         Check.is("without listeners", x.run(0, 1), 3);
         Check.is("register", Check.store(x, 3), "p");
+        Foldback y = Check.withBlock("abcdefghijp");
+        Check.play(y, "move -11, copy 0 1, copy 1 2, copy 2 3, copy 3 4, kill 1, kill 1");
+        Check.macro(y, 0, "copy 0 4, copy 1 4, copy 2 4, copy 3 5, kill 1, rotate, setMark 0 left");
+        Check.play(y, "copy 0 1, copy 1 2, copy 2 3, copy 3 4");
+        Check.chase(y);
+        Check.refuses("a run that sets all stores", Check.ISE, y, () -> y.run(0, 1));
     }
 
     private static void promise17InGroup() {
@@ -420,6 +435,16 @@ public final class RunTest {
         Check.is("one change", x.nodes(), nodes + 1);
         Check.is("state", Check.replay(x, node), "cabd");
         Check.is("steps", x.stepsOf(node), 4);
+        // the steps of a run that failed are in no change, so that none of them is undone either
+        Foldback y = recorded("z", "insert f, search z");
+        y.walk(0);
+        y.open();
+        y.insert('a');
+        Check.is("a run that fails", y.run(0, 1), 0);
+        y.close();
+        y.undoIn(0, 1);
+        Check.is("undone", Check.text(y), "");
+        Check.is("by one step", y.stepsOf(y.now()), 1);
     }
 
     private static void promise18Checkpoint() {
@@ -676,6 +701,9 @@ public final class RunTest {
         x.track(0);
         Check.is("the listener was notified", Check.text(x), "aq");
         Check.is("steps", x.stepsOf(2), 2);
+        x.unlisten(0);
+        x.undoIn(1, 1);
+        Check.is("the replacement can be undone", Check.text(x), "ap");
     }
 
     private static void trackedStoresAndWalks() {

@@ -298,6 +298,10 @@ public final class TreeTest {
         Check.play(three, "move -6, open, delete 1, move -1, delete 1, delete 1, move -2, delete 1, close");
         Check.is("text", Check.text(three), "bfghi");
         Check.is("several", afterUndoIn(three, 1, 1), "abcdefghi");
+        Foldback again = Check.withBlock("abcdefghi");
+        Check.play(again, "move -6, open, delete 1, move -1, delete 1, close, undoIn 2 2, walk 1, move -7, open, delete 1, delete 1, close");
+        Check.is("text", Check.text(again), "abefghi");
+        Check.is("what moved in another change does not count", afterUndoIn(again, 2, 2), "abcdefghi");
         Foldback apart = Check.withBlock("abcdefghi");
         Check.play(apart, "move -5, open, delete 1, move -3, delete 1, close");
         Check.is("text", Check.text(apart), "acdfghi");
@@ -323,6 +327,16 @@ public final class TreeTest {
         Foldback eight = Check.withBlock("abcdefgh");
         Check.is("8 text steps", afterUndoIn(eight, 0, 0), "");
         Check.is("steps", eight.stepsOf(2), 8);
+        Foldback later = Check.withBlock("abcdefgh");
+        Check.block(later, "ijklmnop");
+        Check.is("behind another change", afterUndoIn(later, 16, 16), "abcdefgh");
+        Foldback refused = Check.typed("z");
+        Check.chase(refused);
+        Check.refuses("refused by listeners", Check.ISE, refused, () -> refused.insert('p'));
+        refused.unlisten(0);
+        refused.unlisten(1);
+        Check.block(refused, "abcdefgh");
+        Check.is("steps of a call that threw are not counted", afterUndoIn(refused, 9, 9), "z");
         Foldback nine = Check.withBlock("abcdefghi");
         Check.refuses("9 text steps", Check.ISE, nine, () -> nine.undoIn(0, 9));
         Foldback marks = Check.typed("ab");
@@ -388,6 +402,12 @@ public final class TreeTest {
         Check.play(y, "move -1, delete 1");
         Check.is("with room it is undone", y.undoIn(396, 396) > 0, true);
         Check.is("length", y.length(), 399);
+        Foldback z = Check.full();
+        Check.play(z, "move -5, open, setMark 0 right, delete 2, delete 1, close, move -50, insert x, insert x");
+        Check.refuses("the second opposite", Check.ISE, z, () -> z.undoIn(397, 397));
+        Check.play(z, "setMark 1 left, move -2, delete 2");
+        Check.is("with room it is undone", z.undoIn(395, 395) > 0, true);
+        Check.is("length", z.length(), 400);
     }
 
     private static void promise28Listeners() {
@@ -419,6 +439,10 @@ public final class TreeTest {
         Check.is("two region undos are merged", y.stepsOf(4), 2);
         Check.is("into one", y.parentOf(4), 2);
         Check.refuses("which is a region undo", Check.ISE, y, () -> y.undoIn(0, 0));
+        Foldback w = twoWords();
+        Check.play(w, "setBookmark 0, walk 1, setBookmark 1, walk 2, insert x, undoIn 0 1, setBudget 4");
+        Check.is("an insertion is merged into a region undo", w.stepsOf(4), 2);
+        Check.is("which is no region undo then", afterUndoIn(w, 0, 0), "abcd");
         Foldback z = twoWords();
         z.setBudget(2);
         Check.is("merged changes", z.stepsOf(2), 2);
