@@ -58,14 +58,13 @@ public final class Foldback {
     public int insert(int character) throws IllegalArgumentException, IllegalStateException {
         requireCharacter(character);
         prepare();
-        boolean extending = continuesTyping(character);
         performOrRefuse(INSERT, character, 0);
-        if (extending) {
+        if (continuesTyping(character)) {
             extendChange();
-            noteCommand(INSERT, character, 0);
-        } else {
-            finish(INSERT, character, 0);
+        } else if (!groupOpen) {
+            makeChange(false);
         }
+        noteCommand(INSERT, character, 0);
         // a second step is a listener's replacement or comes from a merged change
         typing = !groupOpen && tree.current.steps.count == 1;
         lastTyped = character;
@@ -150,7 +149,10 @@ public final class Foldback {
         if (!runMacro(macro, times, 1)) {
             live.takeBack(checked, tracked);
         }
-        finish(RUN, macro, times);
+        if (!groupOpen) {
+            makeChange(false);
+        }
+        noteCommand(RUN, macro, times);
         trial.publish();
         return trial.reason == DONE ? trial.started : trial.startedAtCheckpoint;
     }
@@ -194,7 +196,7 @@ public final class Foldback {
             throw new IllegalStateException("no group is open");
         }
         before.takeAll(live);
-        commit(false);
+        makeChange(false);
         groupOpen = false;
         typing = false;
         return tree.current.number;
@@ -254,7 +256,7 @@ public final class Foldback {
             live.takeAll(before);
             throw new IllegalStateException("the text would be too long");
         }
-        commit(true);
+        makeChange(true);
         typing = false;
         return tree.current.number;
     }
@@ -478,7 +480,10 @@ public final class Foldback {
     private int call(int command, int first, int second) {
         prepare();
         performOrRefuse(command, first, second);
-        finish(command, first, second);
+        if (!groupOpen) {
+            makeChange(false);
+        }
+        noteCommand(command, first, second);
         return answer;
     }
 
@@ -495,13 +500,6 @@ public final class Foldback {
         }
     }
 
-    private void finish(int command, int first, int second) {
-        if (!groupOpen) {
-            commit(false);
-        }
-        noteCommand(command, first, second);
-    }
-
     private void noteCommand(int command, int first, int second) {
         typing = false;
         if (recording != NONE) {
@@ -511,7 +509,8 @@ public final class Foldback {
 
     // ---- changes
 
-    private void commit(boolean regionUndo) {
+    /** Makes a change of the steps so far, if there are any. */
+    private void makeChange(boolean regionUndo) {
         if (live.steps.count > 0) {
             requireCalmListeners();
             makeNode(regionUndo);
@@ -525,6 +524,7 @@ public final class Foldback {
         live.steps.empty();
         keepState(node);
         tree.grow(node);
+        tree.mergeToBudget();
     }
 
     private void keepState(Node node) {
@@ -533,7 +533,7 @@ public final class Foldback {
     }
 
     private boolean continuesTyping(int character) {
-        return typing && !groupOpen && ticks < TYPING_TICKS && isLetterOrDigit(lastTyped) == isLetterOrDigit(character);
+        return typing && ticks < TYPING_TICKS && isLetterOrDigit(lastTyped) == isLetterOrDigit(character);
     }
 
     private static boolean isLetterOrDigit(int character) {
@@ -626,16 +626,16 @@ public final class Foldback {
 
     private int perform(int command, int first, int second) {
         switch (command) {
-            case INSERT: return putSign(first);
+            case INSERT: return putAtPoint(new Chars(new int[] {first}));
             case OVERWRITE: return putOver(first);
             case DELETE: return takeBehind(first);
             case MOVE: return goBy(first);
             case SEARCH: return goBehind(first);
             case KILL: return takeToRing(first);
-            case YANK: return putStored(RING);
+            case YANK: return putAtPoint(live.state.entry(RING, 0));
             case ROTATE: return turnRing();
             case COPY: return keepInRegister(first, second);
-            case PASTE: return putStored(first);
+            case PASTE: return putAtPoint(live.state.entry(first, 0));
             case SET_MARK: return markPoint(first, second == 1);
             case CLEAR_MARK: return unsetMark(first);
             case JUMP: return goToMark(first);
@@ -645,16 +645,11 @@ public final class Foldback {
         }
     }
 
-    private int putSign(int sign) {
-        return putAtPoint(new Chars(new int[] {sign}));
-    }
-
-    private int putStored(int store) {
-        Chars chars = live.state.entry(store, 0);
-        return chars == null ? NO_ENTRY : putAtPoint(chars);
-    }
-
+    /** Puts in characters that there may be none of, as a store may be empty. */
     private int putAtPoint(Chars chars) {
+        if (chars == null) {
+            return NO_ENTRY;
+        }
         if (!live.putIn(live.point, chars)) {
             return TOO_LONG;
         }
@@ -915,20 +910,16 @@ public final class Foldback {
             return true;
         }
 
-        /** Returns what it took, null if there are no such characters. */
-        Chars takeOut(int where, int count) {
-            Chars gone = charsFrom(where, count);
-            if (gone == null) {
-                return null;
-            }
+        /** Takes characters out; charsFrom() has told that they are there. */
+        void takeOut(int where, int count) {
             System.arraycopy(text, where + count, text, where, size - where - count);
             size -= count;
             for (int i = 0; i < MARKS; i++) {
                 places[i] = placeAfterDeletion(places[i], where, count);
             }
-            return gone;
         }
 
+        /** Returns null if there are no such characters. */
         Chars charsFrom(int where, int count) {
             if (where < 0 || count < 0 || where > size - count) {
                 return null;
@@ -1055,10 +1046,11 @@ public final class Foldback {
 
         /** Returns what it took, null if there are no such characters. */
         Chars takeOut(int where, int count) {
-            Chars gone = state.takeOut(where, count);
+            Chars gone = state.charsFrom(where, count);
             if (gone == null) {
                 return null;
             }
+            state.takeOut(where, count);
             steps.append(new Step(DELETION, where, count, gone));
             point = State.placeAfterDeletion(point, where, count);
             for (int i = 0; i < views; i++) {
@@ -1176,7 +1168,6 @@ public final class Foldback {
             list.add(node);
             nextNumber++;
             current = node;
-            mergeToBudget();
         }
 
         /** One way through the list is enough: a merge makes no node ahead of it fit to be merged. */
