@@ -172,11 +172,14 @@ public final class CommandTest {
     }
 
     private static void breaks(String what, Foldback x, Check.Call call) {
-        int was = x.now();
         call.make();
+        int node = x.now();
+        int nodes = x.nodes();
+        int length = x.lengthByReplay(node);
         x.insert('d');
-        Check.is(what + " ends typing", x.now() > was && x.nodes() > was, true);
-        Check.is(what + " ends typing", x.stepsOf(was), 1);
+        Check.is(what + " ends typing", x.nodes(), nodes + 1);
+        Check.is(what + " ends typing", x.parentOf(x.now()), node);
+        Check.is(what + " ends typing", x.lengthByReplay(node), length);
     }
 
     private static void promise2TypingAndOtherCalls() {
@@ -279,6 +282,14 @@ public final class CommandTest {
         Check.is("merged into the new one", y.stepsOf(4), 4);
         y.insert('-');
         Check.is("a change with another one merged into it is not extended", y.now(), 5);
+
+        Foldback w = Check.typed("z");
+        Check.play(w, "setBookmark 0, move -1");
+        w.listen(0, 'q', 'r', 0);
+        Check.play(w, "insert a, insert q, setMark 0 left, setBudget 3");
+        Check.is("a change that was extended and replaced in is merged", w.stepsOf(3), 3);
+        w.undoIn(3, 3);
+        Check.is("and its steps still move the traces of others", Check.text(w), "ar");
 
         Foldback z = Check.typed("p");
         z.listen(0, 'x', 'y', 0);
@@ -741,6 +752,12 @@ public final class CommandTest {
         z.widen();
         Check.is("the outer start too", z.viewStart(), 6);
         Check.is("the outer end too", z.viewEnd(), 8);
+        Check.play(z, "narrow 0, narrow 0, narrow 0, insert a, insert b, move -1, delete 1");
+        // each of the four had two characters, two came in and one went
+        for (int left = 3; left >= 0; left--) {
+            Check.is("each of four views moves", z.viewEnd() - z.viewStart(), 3);
+            Check.is("widen", z.widen(), left);
+        }
         // an undo in a region works whatever the view is
         Foldback y = Check.typed("ab");
         y.move(0);

@@ -59,6 +59,10 @@ public final class RunTest {
         Check.is("command", x.failureCommand(), Foldback.NONE);
         x.undo();
         Check.is("undone as one", Check.text(x), "ab");
+        Foldback w = recorded("", "insert a, insert b, move -1");
+        w.run(0, 2);
+        w.undoIn(3, 3);
+        Check.is("undone in a region", Check.text(w), "ab");
         Check.is("an empty macro", x.run(3, 10), 0);
         Check.is("makes no change", x.nodes(), nodes + 1);
         for (int bad : BAD_MACROS) {

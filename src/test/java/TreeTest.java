@@ -327,6 +327,9 @@ public final class TreeTest {
         Foldback eight = Check.withBlock("abcdefgh");
         Check.is("8 text steps", afterUndoIn(eight, 0, 0), "");
         Check.is("steps", eight.stepsOf(2), 8);
+        Foldback ahead = Check.withBlock("abcdefgh");
+        Check.play(ahead, "insert x");
+        Check.is("ahead of another change", afterUndoIn(ahead, 0, 0), "x");
         Foldback later = Check.withBlock("abcdefgh");
         Check.block(later, "ijklmnop");
         Check.is("behind another change", afterUndoIn(later, 16, 16), "abcdefgh");
