@@ -1,4 +1,4 @@
-/** Counts answers, and prints those that are not due. */
+/** Counts answers, and prints those that are not due; with -Dfirst=true the first one ends the test. */
 final class Check {
     interface Call {
         void make();
@@ -10,8 +10,14 @@ final class Check {
 
     private static int right;
     private static int wrong;
+    // the sentence of the document that is being tested, if a test names one
+    private static String about = "";
 
     private Check() {
+    }
+
+    static void about(String sentence) {
+        about = sentence.isEmpty() ? "" : "[" + sentence + "] ";
     }
 
     static void is(String what, long got, long due) {
@@ -19,7 +25,10 @@ final class Check {
             right++;
         } else {
             wrong++;
-            System.out.println("WRONG " + what + ": answered " + got + ", due is " + due);
+            System.out.println("WRONG " + about + what + ": answered " + got + ", due is " + due);
+            if (Boolean.getBoolean("first")) {
+                System.exit(1);
+            }
         }
     }
 
@@ -58,75 +67,86 @@ final class Check {
     // ---- editors in a wanted state
 
     /** Types a text, each character in a change of its own unless typing joins them. */
-    static Foldback typed(String text) {
-        Foldback x = new Foldback();
+    static Ed typed(String text) {
+        Ed x = new Ed();
         type(x, text);
         return x;
     }
 
-    static void type(Foldback x, String text) {
+    static void type(Ed x, String text) {
         for (int i = 0; i < text.length(); i++) {
             x.insert(text.charAt(i));
         }
     }
 
     /** Types a text as one change of a group. */
-    static void block(Foldback x, String text) {
+    static void block(Ed x, String text) {
         x.open();
         type(x, text);
         x.close();
     }
 
-    static Foldback withBlock(String text) {
-        Foldback x = new Foldback();
+    static Ed withBlock(String text) {
+        Ed x = new Ed();
         block(x, text);
         return x;
     }
 
     /** Moves the point, however far. */
-    static void to(Foldback x, int place) {
+    static void to(Ed x, int place) {
         while (x.point() != place) {
             int way = place - x.point();
             x.move(Math.max(-50, Math.min(50, way)));
         }
     }
 
-    static String text(Foldback x) {
+    static String text(Ed x) {
         StringBuilder all = new StringBuilder();
-        for (int i = 0; i < x.length(); i++) {
+        int length = x.length();
+        for (int i = 0; i < length; i++) {
             all.append((char) x.charAt(i));
         }
         return all.toString();
     }
 
-    static String replay(Foldback x, int node) {
+    static String replay(Ed x, int node) {
         StringBuilder all = new StringBuilder();
-        for (int i = 0; i < x.lengthByReplay(node); i++) {
+        int length = x.lengthByReplay(node);
+        for (int i = 0; i < length; i++) {
             all.append((char) x.charByReplay(node, i));
         }
         return all.toString();
     }
 
-    static String entry(Foldback x, int store, int entry) {
+    static String entry(Ed x, int store, int entry) {
         StringBuilder all = new StringBuilder();
-        for (int i = 0; i < x.entryLength(store, entry); i++) {
+        int length = x.entryLength(store, entry);
+        for (int i = 0; i < length; i++) {
             all.append((char) x.entryChar(store, entry, i));
         }
         return all.toString();
     }
 
     /** All entries of a store with bars between them. */
-    static String store(Foldback x, int store) {
+    static String store(Ed x, int store) {
         StringBuilder all = new StringBuilder();
-        for (int i = 0; i < x.entries(store); i++) {
+        int entries = x.entries(store);
+        for (int i = 0; i < entries; i++) {
             all.append(i == 0 ? "" : "|").append(entry(x, store, i));
         }
         return all.toString();
     }
 
     /** An editor whose text has 400 characters, its point at the end. */
-    static Foldback full() {
-        Foldback x = withBlock("abcdefghijklmnopqrst");
+    static Ed full() {
+        Ed x = new Ed();
+        fill(x);
+        return x;
+    }
+
+    /** Fills an empty text: node 1 has 20 characters, a to t, which register 0 has too, and node 2 has 400. */
+    static void fill(Ed x) {
+        block(x, "abcdefghijklmnopqrst");
         to(x, 0);
         x.copy(0, 20);
         to(x, 20);
@@ -135,17 +155,16 @@ final class Check {
             x.paste(0);
         }
         x.close();
-        return x;
     }
 
     /** Lets two listeners chase each other, so that each change with a 'p' or 'q' in the text is refused. */
-    static void chase(Foldback x) {
+    static void chase(Ed x) {
         x.listen(0, 'p', 'q', 0);
         x.listen(1, 'q', 'p', 0);
     }
 
     /** A picture of all that queries tell, to see that a call changed nothing. */
-    static String all(Foldback x) {
+    static String all(Ed x) {
         StringBuilder s = new StringBuilder();
         s.append(text(x)).append(";p").append(x.point()).append(";v").append(x.viewStart()).append(',').append(x.viewEnd());
         for (int m = 0; m < 6; m++) {
@@ -166,9 +185,10 @@ final class Check {
         return s.toString();
     }
 
-    private static void appendNodes(StringBuilder s, Foldback x) {
+    private static void appendNodes(StringBuilder s, Ed x) {
         int seen = 0;
-        for (int n = 0; seen < x.nodes() && n < 2000; n++) {
+        int nodes = x.nodes();
+        for (int n = 0; seen < nodes && n < 2000; n++) {
             if (!exists(x, n)) {
                 continue;
             }
@@ -184,7 +204,7 @@ final class Check {
         }
     }
 
-    static boolean exists(Foldback x, int node) {
+    static boolean exists(Ed x, int node) {
         try {
             x.parentOf(node);
             return true;
@@ -193,7 +213,7 @@ final class Check {
         }
     }
 
-    static String chain(Foldback x) {
+    static String chain(Ed x) {
         StringBuilder s = new StringBuilder();
         for (int i = 0; i < 8; i++) {
             s.append(x.listenerChain(i)).append(' ');
@@ -201,70 +221,38 @@ final class Check {
         return s.toString().trim();
     }
 
-    /** That a call throws and that no query tells a difference. */
-    static void refuses(String what, Class<?> due, Foldback x, Call call) {
+    /** That a call throws, and that neither a query nor a later call tells a difference. */
+    static void refuses(String what, Class<?> due, Ed x, Call call) {
         String was = all(x);
         fails(what, due, call);
         is(what + " changes nothing", all(x), was);
+        is(what + " leaves no trace", x.traceOfLatestCall(), "");
     }
 
     // ---- scripts of calls
 
     /** Makes calls written as "insert a, move -1, copy 0 2"; returns the last answer. */
-    static int play(Foldback x, String script) {
+    static int play(Ed x, String script) {
         int answer = 0;
         for (String call : script.split(", *")) {
             String[] words = call.trim().split(" +");
-            answer = playOne(x, words[0], number(words, 1), number(words, 2));
+            int[] arguments = new int[words.length - 1];
+            for (int i = 0; i < arguments.length; i++) {
+                arguments[i] = number(words[0], words[i + 1]);
+            }
+            answer = x.call(words[0], arguments);
         }
         return answer;
     }
 
     /** A single sign stands for its character behind insert, overwrite and search, anything else for a number. */
-    private static int number(String[] words, int i) {
-        if (i >= words.length) {
-            return 0;
-        }
-        boolean sign = words[i].length() == 1 && (words[0].equals("insert") || words[0].equals("overwrite") || words[0].equals("search"));
-        return sign ? words[i].charAt(0) : words[i].equals("left") ? 0 : words[i].equals("right") ? 1 : Integer.parseInt(words[i]);
-    }
-
-    private static int playOne(Foldback x, String name, int a, int b) {
-        switch (name) {
-            case "insert": return x.insert(a);
-            case "overwrite": return x.overwrite(a);
-            case "delete": return x.delete(a);
-            case "move": return x.move(a);
-            case "search": return x.search(a);
-            case "kill": return x.kill(a);
-            case "yank": return x.yank();
-            case "rotate": return x.rotate();
-            case "copy": return x.copy(a, b);
-            case "paste": return x.paste(a);
-            case "setMark": return x.setMark(a, b == 1);
-            case "clearMark": return x.clearMark(a);
-            case "jump": return x.jump(a);
-            case "narrow": return x.narrow(a);
-            case "widen": return x.widen();
-            case "run": return x.run(a, b);
-            case "checkpoint": x.checkpoint(); return 0;
-            case "undo": return x.undo();
-            case "redo": return x.redo();
-            case "walk": return x.walk(a);
-            case "undoIn": return x.undoIn(a, b);
-            case "open": x.open(); return 0;
-            case "close": return x.close();
-            case "pass": x.pass(a); return 0;
-            case "track": x.track(a); return 0;
-            case "setBookmark": return x.setBookmark(a);
-            case "clearBookmark": return x.clearBookmark(a);
-            case "setBudget": return x.setBudget(a);
-            default: throw new AssertionError("no such call: " + name);
-        }
+    private static int number(String call, String word) {
+        boolean sign = word.length() == 1 && (call.equals("insert") || call.equals("overwrite") || call.equals("search"));
+        return sign ? word.charAt(0) : word.equals("left") ? 0 : word.equals("right") ? 1 : Integer.parseInt(word);
     }
 
     /** Records a macro by making its calls. */
-    static void macro(Foldback x, int macro, String script) {
+    static void macro(Ed x, int macro, String script) {
         x.record(macro);
         play(x, script);
         x.stop();

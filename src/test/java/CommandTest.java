@@ -33,7 +33,7 @@ public final class CommandTest {
     }
 
     private static void promise1NewObject() {
-        Foldback x = new Foldback();
+        Ed x = new Ed();
         Check.is("text", Check.text(x), "");
         Check.is("length", x.length(), 0);
         Check.is("point", x.point(), 0);
@@ -69,7 +69,7 @@ public final class CommandTest {
     }
 
     private static void promise2Insert() {
-        Foldback x = new Foldback();
+        Ed x = new Ed();
         Check.is("insert", x.insert('b'), 1);
         Check.is("insert", x.insert('d'), 2);
         x.move(-1);
@@ -86,7 +86,7 @@ public final class CommandTest {
         for (int bad : BAD_CHARACTERS) {
             Check.refuses("insert " + bad, Check.IAE, x, () -> x.insert(bad));
         }
-        Foldback full = Check.full();
+        Ed full = Check.full();
         Check.is("400 characters", full.length(), 400);
         Check.refuses("insert into a full text", Check.ISE, full, () -> full.insert('a'));
         Check.refuses("a bad character into a full text", Check.IAE, full, () -> full.insert(9));
@@ -96,7 +96,7 @@ public final class CommandTest {
     }
 
     private static void promise2TypingGoesOn() {
-        Foldback x = new Foldback();
+        Ed x = new Ed();
         x.insert('a');
         x.pass(3);
         x.insert('Z');
@@ -112,14 +112,14 @@ public final class CommandTest {
         x.move(-6);
         x.walk(1);
         Check.is("the point when it was last extended", x.point(), 6);
-        Foldback y = new Foldback();
+        Ed y = new Ed();
         for (char c : "@[`{/: \n~!".toCharArray()) {
             y.insert(c);
         }
         Check.is("signs that are no letters or digits", y.now(), 1);
         Check.is("one step", y.stepsOf(1), 1);
         // marks behave as if each character came alone
-        Foldback z = new Foldback();
+        Ed z = new Ed();
         z.setMark(0, true);
         z.setMark(1, false);
         z.insert('a');
@@ -131,13 +131,13 @@ public final class CommandTest {
 
     private static void promise2TypingEnds() {
         for (char c : "@[`{/: \n".toCharArray()) {
-            Foldback x = Check.typed("a");
+            Ed x = Check.typed("a");
             x.insert(c);
             Check.is("another kind of character", x.now(), 2);
             x.insert('b');
             Check.is("and back", x.now(), 3);
         }
-        Foldback x = Check.typed("a");
+        Ed x = Check.typed("a");
         x.pass(4);
         x.insert('b');
         Check.is("after 4 ticks", x.now(), 2);
@@ -161,8 +161,8 @@ public final class CommandTest {
         Check.is("is left out of account", x.now(), 4);
     }
 
-    private static Foldback prepared() {
-        Foldback x = Check.typed("ab");
+    private static Ed prepared() {
+        Ed x = Check.typed("ab");
         x.setMark(0, true);
         x.move(-1);
         x.copy(0, 1);
@@ -171,7 +171,7 @@ public final class CommandTest {
         return x;
     }
 
-    private static void breaks(String what, Foldback x, Check.Call call) {
+    private static void breaks(String what, Ed x, Check.Call call) {
         call.make();
         int node = x.now();
         int nodes = x.nodes();
@@ -183,7 +183,7 @@ public final class CommandTest {
     }
 
     private static void promise2TypingAndOtherCalls() {
-        Foldback[] x = new Foldback[22];
+        Ed[] x = new Ed[22];
         for (int i = 0; i < x.length; i++) {
             x[i] = prepared();
         }
@@ -224,17 +224,24 @@ public final class CommandTest {
             x[21].move(-1);
             x[21].overwrite('o');
         });
-        Foldback behind = Check.withBlock("z");
+        Ed behind = Check.withBlock("z");
         behind.move(-1);
         behind.insert('a');
         breaks("search", behind, () -> behind.search('z'));
-        Foldback y = prepared();
+        Ed y = prepared();
         int node = y.now();
-        Check.all(y);
-        y.lines();
-        y.lineOf(0);
-        y.lineStart(0);
-        y.listenerChain(0);
+        for (String query : new String[] {"length", "point", "lines", "viewStart", "viewEnd", "now", "nodes", "failureReason", "failureCommand"}) {
+            y.askHere(query);
+        }
+        for (String query : new String[] {"charAt", "lineOf", "lineStart", "markAt", "parentOf", "newestChild", "stepsOf", "bookmarkAt",
+            "lengthByReplay", "entries", "commands", "listenerChain"}) {
+            y.askHere(query, 0);
+        }
+        y.askHere("charByReplay", node, 0);
+        y.askHere("markByReplay", node, 0);
+        y.askHere("storedByReplay", node, 0);
+        y.askHere("entryLength", 4, 0);
+        y.askHere("entryChar", 4, 0, 0);
         Check.fails("stop", Check.ISE, () -> y.stop());
         Check.fails("close", Check.ISE, () -> y.close());
         Check.fails("redo", Check.ISE, () -> y.redo());
@@ -246,7 +253,7 @@ public final class CommandTest {
         Check.fails("undoIn", Check.IAE, () -> y.undoIn(0, 99));
         y.insert('d');
         Check.is("queries and calls that throw do not end typing", y.now(), node);
-        Foldback z = Check.typed("a");
+        Ed z = Check.typed("a");
         z.open();
         z.insert('b');
         z.insert('c');
@@ -257,7 +264,7 @@ public final class CommandTest {
     }
 
     private static void promise2TypingAndListenersAndMerges() {
-        Foldback x = Check.typed("a");
+        Ed x = Check.typed("a");
         x.listen(0, 'q', 'r', 0);
         x.insert('b');
         x.insert('q');
@@ -275,7 +282,7 @@ public final class CommandTest {
         x.insert('q');
         Check.is("not extended", x.now(), 6);
 
-        Foldback y = Check.typed("a b");
+        Ed y = Check.typed("a b");
         y.setBudget(2);
         Check.is("three nodes are merged to two", y.nodes(), 2);
         y.insert('-');
@@ -283,7 +290,7 @@ public final class CommandTest {
         y.insert('-');
         Check.is("a change with another one merged into it is not extended", y.now(), 5);
 
-        Foldback w = Check.typed("z");
+        Ed w = Check.typed("z");
         Check.play(w, "setBookmark 0, move -1");
         w.listen(0, 'q', 'r', 0);
         Check.play(w, "insert a, insert q, setMark 0 left, setBudget 3");
@@ -291,7 +298,7 @@ public final class CommandTest {
         w.undoIn(3, 3);
         Check.is("and its steps still move the traces of others", Check.text(w), "ar");
 
-        Foldback z = Check.typed("p");
+        Ed z = Check.typed("p");
         z.listen(0, 'x', 'y', 0);
         z.listen(1, 'y', 'x', 0);
         z.insert('q');
@@ -304,7 +311,7 @@ public final class CommandTest {
     }
 
     private static void promise3Overwrite() {
-        Foldback x = Check.withBlock("abc");
+        Ed x = Check.withBlock("abc");
         Check.refuses("overwrite at the end", Check.ISE, x, () -> x.overwrite('z'));
         x.move(-3);
         Check.is("overwrite", x.overwrite('x'), 'a');
@@ -328,13 +335,13 @@ public final class CommandTest {
         x.overwrite('y');
         Check.refuses("overwrite at the end of the view", Check.ISE, x, () -> x.overwrite('z'));
         Check.refuses("and a bad character", Check.IAE, x, () -> x.overwrite(9));
-        Foldback full = Check.full();
+        Ed full = Check.full();
         full.move(-1);
         Check.is("in a full text", full.overwrite('!'), 't');
     }
 
     private static void promise4Delete() {
-        Foldback x = Check.withBlock("abcdefghijklmnopqrstuvwxyz");
+        Ed x = Check.withBlock("abcdefghijklmnopqrstuvwxyz");
         Check.refuses("delete at the end", Check.ISE, x, () -> x.delete(1));
         x.move(-26);
         Check.is("delete", x.delete(1), 25);
@@ -358,7 +365,7 @@ public final class CommandTest {
     }
 
     private static void promise5Move() {
-        Foldback x = Check.full();
+        Ed x = Check.full();
         Check.is("move back", x.move(-50), 350);
         Check.is("move on", x.move(50), 400);
         Check.is("stay", x.move(0), 400);
@@ -381,7 +388,7 @@ public final class CommandTest {
     }
 
     private static void promise6Search() {
-        Foldback x = Check.withBlock("a.b.c\n~ ");
+        Ed x = Check.withBlock("a.b.c\n~ ");
         Check.to(x, 0);
         Check.is("the first one", x.search('.'), 2);
         Check.is("the next one", x.search('.'), 4);
@@ -408,7 +415,7 @@ public final class CommandTest {
     }
 
     private static void promise7Kill() {
-        Foldback x = Check.withBlock("abcdefghijklmnopqrstuvwxyz0123456789");
+        Ed x = Check.withBlock("abcdefghijklmnopqrstuvwxyz0123456789");
         Check.refuses("kill at the end", Check.ISE, x, () -> x.kill(1));
         Check.to(x, 0);
         Check.is("kill", x.kill(1), 1);
@@ -441,7 +448,7 @@ public final class CommandTest {
     }
 
     private static void promise8Yank() {
-        Foldback x = Check.withBlock("abcd");
+        Ed x = Check.withBlock("abcd");
         Check.refuses("yank of nothing", Check.ISE, x, () -> x.yank());
         Check.to(x, 0);
         x.kill(1);
@@ -453,7 +460,7 @@ public final class CommandTest {
         Check.is("text", Check.text(x), "bcbcd");
         Check.is("ring", Check.store(x, 4), "bc|a");
         Check.is("one step", x.stepsOf(x.now()), 1);
-        Foldback full = Check.full();
+        Ed full = Check.full();
         full.move(-2);
         full.kill(2);
         full.insert('a');
@@ -463,7 +470,7 @@ public final class CommandTest {
     }
 
     private static void promise9Rotate() {
-        Foldback x = Check.withBlock("abcdef");
+        Ed x = Check.withBlock("abcdef");
         Check.refuses("rotate of nothing", Check.ISE, x, () -> x.rotate());
         Check.to(x, 0);
         x.kill(1);
@@ -489,7 +496,7 @@ public final class CommandTest {
     }
 
     private static void promise10Copy() {
-        Foldback x = Check.withBlock("abcdefghijklmnopqrstuvwxyz");
+        Ed x = Check.withBlock("abcdefghijklmnopqrstuvwxyz");
         Check.refuses("copy at the end", Check.ISE, x, () -> x.copy(0, 1));
         Check.to(x, 1);
         Check.is("copy", x.copy(0, 3), 0);
@@ -524,7 +531,7 @@ public final class CommandTest {
     }
 
     private static void promise11Paste() {
-        Foldback x = Check.withBlock("abc");
+        Ed x = Check.withBlock("abc");
         Check.refuses("paste of nothing", Check.ISE, x, () -> x.paste(0));
         Check.to(x, 0);
         x.copy(0, 2);
@@ -539,7 +546,7 @@ public final class CommandTest {
         for (int bad : BAD_REGISTERS) {
             Check.refuses("paste of " + bad, Check.IOOBE, x, () -> x.paste(bad));
         }
-        Foldback full = Check.full();
+        Ed full = Check.full();
         Check.refuses("paste of too much", Check.ISE, full, () -> full.paste(0));
         Check.refuses("paste of nothing into a full text", Check.ISE, full, () -> full.paste(1));
         full.move(-19);
@@ -551,7 +558,7 @@ public final class CommandTest {
     }
 
     private static void promise12SetMark() {
-        Foldback x = Check.withBlock("abc");
+        Ed x = Check.withBlock("abc");
         Check.is("set", x.setMark(0, true), Foldback.NONE);
         Check.is("where it is", x.markAt(0), 3);
         x.move(-2);
@@ -572,7 +579,7 @@ public final class CommandTest {
         x.undo();
         x.insert('-');
         Check.is("the old gravity comes back with its node", x.markAt(0), 2);
-        Foldback full = Check.full();
+        Ed full = Check.full();
         full.record(0);
         for (int i = 0; i < 16; i++) {
             full.setMark(1, true);
@@ -581,8 +588,8 @@ public final class CommandTest {
         Check.refuses("the mark comes first", Check.IOOBE, full, () -> full.setMark(6, true));
     }
 
-    private static Foldback marked() {
-        Foldback x = Check.withBlock("0123456789");
+    private static Ed marked() {
+        Ed x = Check.withBlock("0123456789");
         for (int i = 0; i < 6; i++) {
             Check.to(x, 3 + i / 2);
             x.setMark(i, i % 2 == 1);
@@ -590,7 +597,7 @@ public final class CommandTest {
         return x;
     }
 
-    private static String marks(Foldback x) {
+    private static String marks(Ed x) {
         StringBuilder s = new StringBuilder();
         for (int i = 0; i < 6; i++) {
             s.append(x.markAt(i)).append(' ');
@@ -600,7 +607,7 @@ public final class CommandTest {
 
     /** The marks: 0 and 1 at 3, 2 and 3 at 4, 4 and 5 at 5; the even ones with left gravity. */
     private static void marksMove() {
-        Foldback x = marked();
+        Ed x = marked();
         Check.is("marks", marks(x), "3 3 4 4 5 5");
         Check.to(x, 0);
         x.copy(0, 3);
@@ -639,7 +646,7 @@ public final class CommandTest {
     }
 
     private static void promise13ClearMark() {
-        Foldback x = Check.withBlock("abc");
+        Ed x = Check.withBlock("abc");
         Check.refuses("unset", Check.ISE, x, () -> x.clearMark(0));
         x.setMark(0, true);
         int nodes = x.nodes();
@@ -667,7 +674,7 @@ public final class CommandTest {
     }
 
     private static void promise14Jump() {
-        Foldback x = Check.withBlock("abcdef");
+        Ed x = Check.withBlock("abcdef");
         Check.refuses("to an unset mark", Check.ISE, x, () -> x.jump(0));
         x.move(-2);
         x.setMark(0, true);
@@ -695,7 +702,7 @@ public final class CommandTest {
     }
 
     private static void promise15Narrow() {
-        Foldback x = Check.withBlock("0123456789");
+        Ed x = Check.withBlock("0123456789");
         Check.refuses("to an unset mark", Check.ISE, x, () -> x.narrow(0));
         Check.to(x, 2);
         x.setMark(0, true);
@@ -728,7 +735,7 @@ public final class CommandTest {
     }
 
     private static void viewsMove() {
-        Foldback x = Check.withBlock("0123456789");
+        Ed x = Check.withBlock("0123456789");
         Check.to(x, 3);
         x.setMark(0, false);
         Check.to(x, 6);
@@ -744,7 +751,7 @@ public final class CommandTest {
         Check.is("start", x.viewStart(), 3);
         Check.is("end", x.viewEnd(), 6);
         // only an undo in a region inserts ahead of a view
-        Foldback z = Check.withBlock("0123456789");
+        Ed z = Check.withBlock("0123456789");
         Check.play(z, "move -8, delete 2, move 2, setMark 0 left, move 2, narrow 0, narrow 0");
         z.undoIn(2, 2);
         Check.is("start moves", z.viewStart(), 6);
@@ -759,7 +766,7 @@ public final class CommandTest {
             Check.is("widen", z.widen(), left);
         }
         // an undo in a region works whatever the view is
-        Foldback y = Check.typed("ab");
+        Ed y = Check.typed("ab");
         y.move(0);
         Check.type(y, "cdef");
         y.setMark(0, false);
@@ -775,7 +782,7 @@ public final class CommandTest {
     }
 
     private static void promise16Widen() {
-        Foldback x = Check.withBlock("0123456789");
+        Ed x = Check.withBlock("0123456789");
         Check.refuses("no view", Check.ISE, x, () -> x.widen());
         x.setMark(0, true);
         x.move(-4);
@@ -798,7 +805,7 @@ public final class CommandTest {
 
     /** Each command that makes a change throws if listeners go too deep, and the others do not. */
     private static void listenersRefuseEachCommand() {
-        Foldback x = Check.withBlock("abp");
+        Ed x = Check.withBlock("abp");
         x.setMark(0, true);
         x.move(-3);
         x.copy(0, 1);

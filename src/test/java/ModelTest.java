@@ -5,7 +5,9 @@ import java.util.Random;
 /** Many runs of calls, each answer and each query compared with the plain Model. */
 public final class ModelTest {
     private static final int RUNS = Integer.getInteger("runs", 1500);
-    private static final int CALLS = 512;
+    // what is left of the 512 calls is for queries
+    private static final int LEAST_CALLS = 60;
+    private static final int MOST_CALLS = 480;
 
     public static void main(String[] args) {
         for (int seed = 1; seed <= RUNS; seed++) {
@@ -16,10 +18,12 @@ public final class ModelTest {
 
     private final int seed;
     private final Random random;
-    private final Foldback x = new Foldback();
+    private final Ed x = new Ed();
     private final Model m = new Model();
     private final List<String> log = new ArrayList<>();
     private final int style;
+    private int calls;
+    private boolean same = true;
 
     private ModelTest(int seed) {
         this.seed = seed;
@@ -28,28 +32,43 @@ public final class ModelTest {
     }
 
     private void go() {
+        int most = LEAST_CALLS + random.nextInt(MOST_CALLS - LEAST_CALLS);
         if (style == 5) {
             fill();
         }
-        for (int i = 0; i < CALLS; i++) {
+        for (int next = calls + 25; same && calls < most; ) {
             one();
-            if (!sameQuickly() || (i % 16 == 0 || i == CALLS - 1) && !sameWholly()) {
-                System.out.println("seed " + seed + ", call " + i + ": the queries differ");
-                for (String s : log.subList(Math.max(0, log.size() - 40), log.size())) {
-                    System.out.println("  " + s);
-                }
-                Check.is("seed " + seed, 0, 1);
-                return;
+            if (same && calls >= next) {
+                next += 25;
+                needs("the queries differ", sameQuickly());
             }
         }
-        Check.is("seed " + seed, 1, 1);
+        if (same) {
+            needs("the queries differ at the end", sameQuickly() && sameWholly());
+        }
+        Check.is("seed " + seed, same, true);
     }
 
+    private void needs(String what, boolean holds) {
+        if (!holds) {
+            same = false;
+            System.out.println("seed " + seed + ", call " + calls + ": " + what);
+            for (String s : log.subList(Math.max(0, log.size() - 40), log.size())) {
+                System.out.println("  " + s);
+            }
+        }
+    }
+
+    /** A text of 380 characters. */
     private void fill() {
-        Foldback full = Check.full();
         both("open");
-        for (int i = 0; i < 390; i++) {
-            both("insert", full.charAt(i));
+        for (int i = 0; i < 20; i++) {
+            both("insert", 'a' + i);
+        }
+        both("move", -20);
+        both("copy", 0, 20);
+        for (int i = 0; i < 18; i++) {
+            both("paste", 0);
         }
         both("close");
     }
@@ -84,6 +103,9 @@ public final class ModelTest {
             name = "close";
         }
         both(name, arguments(name));
+        if (random.nextInt(6) == 0) {
+            query();
+        }
     }
 
     private int[] arguments(String name) {
@@ -133,68 +155,54 @@ public final class ModelTest {
     // ---- both programs
 
     private void both(String name, int... a) {
-        String due = answer(() -> m.call(name, a));
-        String got = answer(() -> onFoldback(name, a));
+        if (!same) {
+            return;
+        }
+        String due = dueOf(name, a);
+        String got = x.told(name, a);
+        calls++;
         log.add(name + java.util.Arrays.toString(a) + " due " + due + " got " + got);
-        if (!due.equals(got)) {
-            System.out.println("seed " + seed + ": " + log.get(log.size() - 1));
-            for (String s : log.subList(Math.max(0, log.size() - 40), log.size())) {
-                System.out.println("  " + s);
-            }
-            Check.is("seed " + seed, 0, 1);
-            throw new AssertionError("the programs differ");
-        }
+        needs("the answers differ", due.equals(got));
     }
 
-    private interface Asked {
-        int ask();
-    }
-
-    private static String answer(Asked asked) {
+    private String dueOf(String name, int... a) {
         try {
-            return String.valueOf(asked.ask());
-        } catch (IllegalStateException | IllegalArgumentException e) {
+            return String.valueOf(m.call(name, a));
+        } catch (IllegalStateException | IllegalArgumentException | IndexOutOfBoundsException e) {
             return e.getClass().getSimpleName();
-        } catch (IndexOutOfBoundsException e) {
-            return e.getClass() == IndexOutOfBoundsException.class ? "IndexOutOfBoundsException" : "the machine threw " + e;
         }
     }
 
-    private int onFoldback(String name, int[] a) {
-        switch (name) {
-            case "insert": return x.insert(a[0]);
-            case "overwrite": return x.overwrite(a[0]);
-            case "delete": return x.delete(a[0]);
-            case "move": return x.move(a[0]);
-            case "search": return x.search(a[0]);
-            case "kill": return x.kill(a[0]);
-            case "yank": return x.yank();
-            case "rotate": return x.rotate();
-            case "copy": return x.copy(a[0], a[1]);
-            case "paste": return x.paste(a[0]);
-            case "setMark": return x.setMark(a[0], a[1] == 1);
-            case "clearMark": return x.clearMark(a[0]);
-            case "jump": return x.jump(a[0]);
-            case "narrow": return x.narrow(a[0]);
-            case "widen": return x.widen();
-            case "run": return x.run(a[0], a[1]);
-            case "checkpoint": x.checkpoint(); return 0;
-            case "record": x.record(a[0]); return 0;
-            case "stop": return x.stop();
-            case "open": x.open(); return 0;
-            case "close": return x.close();
-            case "pass": x.pass(a[0]); return 0;
-            case "track": x.track(a[0]); return 0;
-            case "undo": return x.undo();
-            case "redo": return x.redo();
-            case "walk": return x.walk(a[0]);
-            case "undoIn": return x.undoIn(a[0], a[1]);
-            case "setBookmark": return x.setBookmark(a[0]);
-            case "clearBookmark": return x.clearBookmark(a[0]);
-            case "setBudget": return x.setBudget(a[0]);
-            case "listen": x.listen(a[0], a[1], a[2], a[3]); return 0;
-            default: return x.unlisten(a[0]) ? 1 : 0;
+    /** A query between the calls, of the very object that they are made on. */
+    private void query() {
+        Model.All it = m.it;
+        int number = random.nextInt(6);
+        int index = it.state.text.length() == 0 ? 0 : random.nextInt(it.state.text.length());
+        switch (random.nextInt(12)) {
+            case 0 -> here(it.state.text.length(), "length");
+            case 1 -> here(it.point, "point");
+            case 2 -> here(m.low(), "viewStart");
+            case 3 -> here(m.high(), "viewEnd");
+            case 4 -> here(it.current, "now");
+            case 5 -> here(it.nodes.size(), "nodes");
+            case 6 -> here(it.state.marks[number], "markAt", number);
+            case 7 -> here(m.replay(it.current).marks[number], "markByReplay", it.current, number);
+            case 8 -> here(m.replay(it.current).text.length(), "lengthByReplay", it.current);
+            case 9 -> here(it.nodes.get(it.current).steps.size(), "stepsOf", it.current);
+            case 10 -> here(it.state.stores.get(4).size(), "entries", 4);
+            default -> {
+                if (it.state.text.length() > 0) {
+                    here(it.state.text.charAt(index), "charAt", index);
+                }
+            }
         }
+    }
+
+    private void here(int due, String name, int... a) {
+        int got = x.askHere(name, a);
+        calls++;
+        log.add(name + java.util.Arrays.toString(a) + " due " + due + " got " + got);
+        needs("a query differs", due == got);
     }
 
     // ---- all queries

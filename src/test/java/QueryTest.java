@@ -31,7 +31,7 @@ public final class QueryTest {
     }
 
     private static void promise34Length() {
-        Foldback x = new Foldback();
+        Ed x = new Ed();
         Check.is("empty", x.length(), 0);
         Check.play(x, "insert a, insert b");
         Check.is("two", x.length(), 2);
@@ -45,7 +45,7 @@ public final class QueryTest {
     }
 
     private static void promise35CharAt() {
-        Foldback x = new Foldback();
+        Ed x = new Ed();
         Check.fails("in an empty text", Check.IOOBE, () -> x.charAt(0));
         Check.block(x, "a~\n");
         Check.is("first", x.charAt(0), 'a');
@@ -61,7 +61,7 @@ public final class QueryTest {
     }
 
     private static void promise36Point() {
-        Foldback x = new Foldback();
+        Ed x = new Ed();
         Check.is("at first", x.point(), 0);
         Check.play(x, "insert a, insert b, insert c");
         Check.is("behind what was inserted", x.point(), 3);
@@ -72,7 +72,7 @@ public final class QueryTest {
     }
 
     private static void promise37Lines() {
-        Foldback x = new Foldback();
+        Ed x = new Ed();
         Check.is("an empty text", x.lines(), 1);
         Check.type(x, "ab");
         Check.is("no line feed", x.lines(), 1);
@@ -86,7 +86,7 @@ public final class QueryTest {
     }
 
     private static void promise38LineOf() {
-        Foldback x = Check.withBlock("ab\n\nc\n");
+        Ed x = Check.withBlock("ab\n\nc\n");
         int[] lines = {0, 0, 0, 1, 2, 2, 3};
         for (int place = 0; place < lines.length; place++) {
             Check.is("lineOf " + place, x.lineOf(place), lines[place]);
@@ -94,12 +94,12 @@ public final class QueryTest {
         for (int bad : new int[] {-1, 7, Integer.MIN_VALUE, Integer.MAX_VALUE}) {
             Check.fails("lineOf " + bad, Check.IOOBE, () -> x.lineOf(bad));
         }
-        Check.is("in an empty text", new Foldback().lineOf(0), 0);
-        Check.fails("beyond an empty text", Check.IOOBE, () -> new Foldback().lineOf(1));
+        Check.is("in an empty text", new Ed().lineOf(0), 0);
+        Check.fails("beyond an empty text", Check.IOOBE, () -> new Ed().lineOf(1));
     }
 
     private static void promise39LineStart() {
-        Foldback x = Check.withBlock("ab\n\nc\n");
+        Ed x = Check.withBlock("ab\n\nc\n");
         int[] starts = {0, 3, 4, 6};
         for (int line = 0; line < starts.length; line++) {
             Check.is("lineStart " + line, x.lineStart(line), starts[line]);
@@ -107,14 +107,14 @@ public final class QueryTest {
         for (int bad : new int[] {-1, 4, Integer.MIN_VALUE, Integer.MAX_VALUE}) {
             Check.fails("lineStart " + bad, Check.IOOBE, () -> x.lineStart(bad));
         }
-        Check.is("in an empty text", new Foldback().lineStart(0), 0);
-        Check.fails("beyond an empty text", Check.IOOBE, () -> new Foldback().lineStart(1));
-        Foldback y = Check.withBlock("\n");
+        Check.is("in an empty text", new Ed().lineStart(0), 0);
+        Check.fails("beyond an empty text", Check.IOOBE, () -> new Ed().lineStart(1));
+        Ed y = Check.withBlock("\n");
         Check.is("a line feed at the start", y.lineStart(1), 1);
     }
 
     private static void promise40MarkAt() {
-        Foldback x = Check.withBlock("abc");
+        Ed x = Check.withBlock("abc");
         for (int i = 0; i < 6; i++) {
             Check.is("unset", x.markAt(i), Foldback.NONE);
         }
@@ -130,16 +130,16 @@ public final class QueryTest {
         }
     }
 
-    private static Foldback nested() {
-        Foldback x = Check.withBlock("0123456789");
+    private static Ed nested() {
+        Ed x = Check.withBlock("0123456789");
         Check.play(x, "move -8, setMark 0 left, move 6, setMark 1 left, move -3, setMark 2 left, move 3, narrow 0, narrow 2");
         return x;
     }
 
     private static void promise41ViewStart() {
-        Check.is("no view, no text", new Foldback().viewStart(), 0);
+        Check.is("no view, no text", new Ed().viewStart(), 0);
         Check.is("no view", Check.typed("ab").viewStart(), 0);
-        Foldback x = nested();
+        Ed x = nested();
         Check.is("the innermost", x.viewStart(), 5);
         x.widen();
         Check.is("the outer one", x.viewStart(), 2);
@@ -148,9 +148,9 @@ public final class QueryTest {
     }
 
     private static void promise42ViewEnd() {
-        Check.is("no view, no text", new Foldback().viewEnd(), 0);
+        Check.is("no view, no text", new Ed().viewEnd(), 0);
         Check.is("no view", Check.typed("ab").viewEnd(), 2);
-        Foldback x = nested();
+        Ed x = nested();
         Check.is("the innermost", x.viewEnd(), 8);
         x.insert('x');
         Check.is("it moves", x.viewEnd(), 9);
@@ -161,7 +161,7 @@ public final class QueryTest {
     }
 
     private static void promise43Now() {
-        Foldback x = new Foldback();
+        Ed x = new Ed();
         Check.is("the root", x.now(), 0);
         Check.play(x, "insert a, insert -");
         Check.is("the newest", x.now(), 2);
@@ -174,7 +174,7 @@ public final class QueryTest {
     }
 
     private static void promise44Nodes() {
-        Foldback x = new Foldback();
+        Ed x = new Ed();
         Check.is("the root", x.nodes(), 1);
         Check.play(x, "insert a, insert -, undo, insert b");
         Check.is("also those that are not on the path", x.nodes(), 4);
@@ -183,12 +183,12 @@ public final class QueryTest {
     }
 
     private interface OfNode {
-        int ask(Foldback x, int node);
+        int ask(Ed x, int node);
     }
 
     /** That a query throws for nodes that there never were, that are not yet, and that were merged. */
     private static void needsNode(String what, OfNode query) {
-        Foldback x = Check.typed("a-b-");
+        Ed x = Check.typed("a-b-");
         for (int bad : new int[] {-1, 5, 99, 600, Integer.MIN_VALUE, Integer.MAX_VALUE}) {
             Check.fails(what + " of " + bad, Check.IOOBE, () -> query.ask(x, bad));
         }
@@ -202,7 +202,7 @@ public final class QueryTest {
     }
 
     private static void promise45ParentOf() {
-        Foldback x = Check.typed("a-b");
+        Ed x = Check.typed("a-b");
         Check.play(x, "undo, undo, insert c");
         Check.is("of the root", x.parentOf(0), Foldback.NONE);
         Check.is("of 1", x.parentOf(1), 0);
@@ -212,7 +212,7 @@ public final class QueryTest {
     }
 
     private static void promise46NewestChild() {
-        Foldback x = Check.typed("a-b");
+        Ed x = Check.typed("a-b");
         Check.is("of the root", x.newestChild(0), 1);
         Check.is("none", x.newestChild(3), Foldback.NONE);
         Check.play(x, "undo, undo, insert c");
@@ -224,7 +224,7 @@ public final class QueryTest {
     }
 
     private static void promise47StepsOf() {
-        Foldback x = Check.typed("abc");
+        Ed x = Check.typed("abc");
         Check.is("the root", x.stepsOf(0), 0);
         Check.is("typing", x.stepsOf(1), 1);
         Check.play(x, "open, insert a, setMark 0 left, track 4, move -1, kill 1, close");
@@ -234,7 +234,7 @@ public final class QueryTest {
     }
 
     private static void promise48BookmarkAt() {
-        Foldback x = Check.typed("a-");
+        Ed x = Check.typed("a-");
         for (int i = 0; i < 5; i++) {
             Check.is("not set", x.bookmarkAt(i), Foldback.NONE);
         }
@@ -251,7 +251,7 @@ public final class QueryTest {
     }
 
     private static void promise49LengthByReplay() {
-        Foldback x = Check.typed("ab-");
+        Ed x = Check.typed("ab-");
         Check.play(x, "move -1, delete 1, undo, undo");
         Check.is("the root", x.lengthByReplay(0), 0);
         Check.is("node 1", x.lengthByReplay(1), 2);
@@ -264,7 +264,7 @@ public final class QueryTest {
     }
 
     private static void promise50CharByReplay() {
-        Foldback x = Check.typed("ab");
+        Ed x = Check.typed("ab");
         Check.play(x, "move -2, overwrite c, insert d, walk 0");
         Check.is("node 1", x.charByReplay(1, 0), 'a');
         Check.is("node 1", x.charByReplay(1, 1), 'b');
@@ -282,7 +282,7 @@ public final class QueryTest {
     }
 
     private static void promise51MarkByReplay() {
-        Foldback x = Check.typed("ab");
+        Ed x = Check.typed("ab");
         Check.play(x, "setMark 3 right, move -2, insert c, clearMark 3, setMark 5 left, walk 0");
         Check.is("the root", x.markByReplay(0, 3), Foldback.NONE);
         Check.is("node 1", x.markByReplay(1, 3), Foldback.NONE);
@@ -299,7 +299,7 @@ public final class QueryTest {
     }
 
     private static void promise52StoredByReplay() {
-        Foldback x = Check.withBlock("abcdefghij");
+        Ed x = Check.withBlock("abcdefghij");
         Check.play(x, "move -10, kill 1, copy 3 5");
         for (int store = 0; store < 5; store++) {
             Check.is("not tracked", x.storedByReplay(x.now(), store), 0);
@@ -323,14 +323,14 @@ public final class QueryTest {
         needsNode("storedByReplay", (y, node) -> y.storedByReplay(node, 0));
     }
 
-    private static Foldback stored() {
-        Foldback x = Check.withBlock("abcdefghijklmnopqrstuvwxyz");
+    private static Ed stored() {
+        Ed x = Check.withBlock("abcdefghijklmnopqrstuvwxyz");
         Check.play(x, "move -26, copy 3 20, kill 1, kill 2, kill 20");
         return x;
     }
 
     private static void promise53Entries() {
-        Foldback x = stored();
+        Ed x = stored();
         Check.is("an empty register", x.entries(0), 0);
         Check.is("a register", x.entries(3), 1);
         Check.is("the ring", x.entries(4), 3);
@@ -343,7 +343,7 @@ public final class QueryTest {
     }
 
     private static void promise54EntryLength() {
-        Foldback x = stored();
+        Ed x = stored();
         Check.is("a register", x.entryLength(3, 0), 20);
         Check.is("the front", x.entryLength(4, 0), 20);
         Check.is("the second", x.entryLength(4, 1), 2);
@@ -355,7 +355,7 @@ public final class QueryTest {
     }
 
     private static void promise55EntryChar() {
-        Foldback x = stored();
+        Ed x = stored();
         Check.is("a register", x.entryChar(3, 0, 0), 'a');
         Check.is("its last one", x.entryChar(3, 0, 19), 't');
         Check.is("the front", x.entryChar(4, 0, 0), 'd');
@@ -369,7 +369,7 @@ public final class QueryTest {
     }
 
     private static void promise56Commands() {
-        Foldback x = new Foldback();
+        Ed x = new Ed();
         for (int i = 0; i < 4; i++) {
             Check.is("empty", x.commands(i), 0);
         }
@@ -390,7 +390,7 @@ public final class QueryTest {
     }
 
     private static void promise57FailureReason() {
-        Foldback x = Check.typed("ab");
+        Ed x = Check.typed("ab");
         Check.is("no run", x.failureReason(), 0);
         x.move(-2);
         Check.macro(x, 2, "move 1, move 1");
@@ -408,7 +408,7 @@ public final class QueryTest {
     }
 
     private static void promise58FailureCommand() {
-        Foldback x = Check.typed("ab");
+        Ed x = Check.typed("ab");
         Check.is("no run", x.failureCommand(), Foldback.NONE);
         x.move(-2);
         Check.macro(x, 2, "move 1, move 1");
@@ -428,7 +428,7 @@ public final class QueryTest {
     }
 
     private static void promise59ListenerChain() {
-        Foldback x = Check.typed("p");
+        Ed x = Check.typed("p");
         for (int bad : new int[] {-1, 8, Integer.MIN_VALUE, Integer.MAX_VALUE}) {
             Check.fails("listenerChain " + bad, Check.IOOBE, () -> x.listenerChain(bad));
         }

@@ -3,6 +3,8 @@ import java.lang.management.ManagementFactory;
 /** What the dearest runs of calls make stays far below the room that LANGUAGE.md and the page of work tell. */
 public final class RoomTest {
     private static final int CALLS = 512;
+    // the calls of fill() and a few more
+    private static final int FILLING = 60;
     // 600,000 objects of at least 16 bytes each, and far below 7,300,000 elements of 4 bytes
     private static final long ROOM = 600_000L * 16;
 
@@ -40,7 +42,7 @@ public final class RoomTest {
         x.yank();
         x.move(-20);
         x.stop();
-        for (int i = 0; i < CALLS - 40; i++) {
+        for (int i = 0; i < CALLS - FILLING; i++) {
             x.run(0, 8);
         }
     }
@@ -62,10 +64,10 @@ public final class RoomTest {
     }
 
     private static void typing(Foldback x) {
-        for (int i = 0; i < CALLS && x.length() < 400; i++) {
+        for (int i = 0; i < 400; i++) {
             x.insert('a');
         }
-        for (int i = x.length(); i < CALLS; i++) {
+        for (int i = 400; i < CALLS; i++) {
             x.setMark(0, true);
         }
     }
@@ -78,7 +80,7 @@ public final class RoomTest {
             x.move(1);
         }
         x.close();
-        for (int i = 0; i < (CALLS - 50) / 2; i++) {
+        for (int i = 0; i < (CALLS - FILLING) / 3; i++) {
             x.undoIn(0, x.length());
             x.undo();
         }
@@ -87,7 +89,7 @@ public final class RoomTest {
     private static void queries(Foldback x) {
         fill(x);
         int node = x.now();
-        for (int i = 0; i < CALLS - 40; i++) {
+        for (int i = 0; i < (CALLS - FILLING) / 4; i++) {
             x.walk(i % 2 * node);
             x.charByReplay(node, i % 300);
             x.lineOf(x.length());

@@ -37,8 +37,8 @@ public final class RunTest {
     }
 
     /** An editor with a text in node 1, its point at the start, and a macro 0 that has been recorded on it. */
-    private static Foldback recorded(String text, String script) {
-        Foldback x = new Foldback();
+    private static Ed recorded(String text, String script) {
+        Ed x = new Ed();
         if (!text.isEmpty()) {
             Check.block(x, text);
             Check.to(x, 0);
@@ -48,7 +48,7 @@ public final class RunTest {
     }
 
     private static void promise17Run() {
-        Foldback x = recorded("", "insert a, insert b, move -1");
+        Ed x = recorded("", "insert a, insert b, move -1");
         int nodes = x.nodes();
         Check.is("run", x.run(0, 2), 6);
         Check.is("text", Check.text(x), "aaabbb");
@@ -59,7 +59,7 @@ public final class RunTest {
         Check.is("command", x.failureCommand(), Foldback.NONE);
         x.undo();
         Check.is("undone as one", Check.text(x), "ab");
-        Foldback w = recorded("", "insert a, insert b, move -1");
+        Ed w = recorded("", "insert a, insert b, move -1");
         w.run(0, 2);
         w.undoIn(3, 3);
         Check.is("undone in a region", Check.text(w), "ab");
@@ -72,14 +72,14 @@ public final class RunTest {
         for (int bad : new int[] {0, -1, 11, Integer.MIN_VALUE, Integer.MAX_VALUE}) {
             Check.refuses("run " + bad + " times", Check.IAE, x, () -> x.run(0, bad));
         }
-        Foldback y = recorded("abcdefghijkl", "move 1");
+        Ed y = recorded("abcdefghijkl", "move 1");
         Check.is("10 times", y.run(0, 10), 10);
         Check.is("point", y.point(), 11);
         Check.is("no steps, no change", y.nodes(), 2);
     }
 
     private static void promise17Arguments() {
-        Foldback x = recorded("xyz", "copy 2 2, setMark 4 right, paste 2, overwrite !, search z, jump 4, setMark 5 left");
+        Ed x = recorded("xyz", "copy 2 2, setMark 4 right, paste 2, overwrite !, search z, jump 4, setMark 5 left");
         Check.is("recorded", Check.text(x), "xy!yz");
         x.walk(1);
         x.move(-3);
@@ -91,7 +91,7 @@ public final class RunTest {
         x.insert('-');
         Check.is("right gravity", x.markAt(4), 3);
         Check.is("left gravity", x.markAt(5), 2);
-        Foldback y = recorded("abcd", "kill 1, kill 2, rotate, yank");
+        Ed y = recorded("abcd", "kill 1, kill 2, rotate, yank");
         y.walk(1);
         y.move(-4);
         Check.is("kill, rotate and yank", y.run(0, 1), 4);
@@ -101,7 +101,7 @@ public final class RunTest {
     }
 
     private static void promise17FailureWithoutCheckpoint() {
-        Foldback x = recorded("abcdef", "delete 1, insert x, insert y, move 2, setMark 0 left");
+        Ed x = recorded("abcdef", "delete 1, insert x, insert y, move 2, setMark 0 left");
         Check.play(x, "setMark 1 right, move -4, narrow 1");
         String was = Check.all(x);
         Check.is("a run that fails at the second time", x.run(0, 2), 0);
@@ -116,7 +116,7 @@ public final class RunTest {
     }
 
     private static void promise17FailureWithCheckpoint() {
-        Foldback x = recorded("z", "insert a, checkpoint, insert b, setMark 1 right, move -2, narrow 1, widen, search z");
+        Ed x = recorded("z", "insert a, checkpoint, insert b, setMark 1 right, move -2, narrow 1, widen, search z");
         x.walk(0);
         int nodes = x.nodes();
         Check.is("the number at the checkpoint", x.run(0, 1), 2);
@@ -129,7 +129,7 @@ public final class RunTest {
         Check.is("steps", x.stepsOf(x.now()), 1);
         Check.is("replay", Check.replay(x, x.now()), "a");
         Check.is("mark by replay", x.markByReplay(x.now(), 1), Foldback.NONE);
-        Foldback y = recorded("z", "move 0, checkpoint, insert b, search z");
+        Ed y = recorded("z", "move 0, checkpoint, insert b, search z");
         y.walk(0);
         nodes = y.nodes();
         Check.is("a checkpoint without steps", y.run(0, 1), 2);
@@ -138,7 +138,7 @@ public final class RunTest {
     }
 
     private static void promise17ViewsAtCheckpoint() {
-        Foldback x = recorded("abz", "setMark 0 left, move 1, narrow 0, checkpoint, widen, delete 1, search z");
+        Ed x = recorded("abz", "setMark 0 left, move 1, narrow 0, checkpoint, widen, delete 1, search z");
         x.walk(1);
         Check.play(x, "move -1, delete 1, move -2");
         int nodes = x.nodes();
@@ -146,7 +146,7 @@ public final class RunTest {
         Check.is("reason", x.failureReason(), Foldback.NOT_FOUND);
         Check.is("command", x.failureCommand(), 6);
         Check.is("text", Check.text(x), "ab");
-        Foldback y = Check.withBlock("abcdef");
+        Ed y = Check.withBlock("abcdef");
         Check.play(y, "move -3, setMark 0 left, move -2, setMark 1 left, move 4, narrow 0");
         Check.macro(y, 0, "widen, move -1, narrow 1, move -3");
         Check.play(y, "widen, move 4, narrow 0, move -1");
@@ -168,7 +168,7 @@ public final class RunTest {
     }
 
     /** That a macro fails, has no checkpoint, and changes nothing. */
-    private static void failing(String what, int reason, int command, Foldback x) {
+    private static void failing(String what, int reason, int command, Ed x) {
         String was = Check.text(x);
         int node = x.now();
         Check.is(what, x.run(command / 100, 1), 0);
@@ -180,31 +180,31 @@ public final class RunTest {
 
     private static void promise17NotEnoughAndNotFound() {
         for (String command : new String[] {"overwrite c", "delete 1", "move 1", "kill 1", "copy 0 1"}) {
-            Foldback x = recorded("aabb", command);
+            Ed x = recorded("aabb", command);
             x.walk(0);
             failing(command, Foldback.NOT_ENOUGH, 0, x);
         }
-        Foldback back = recorded("aabb", "move 3, move -3");
+        Ed back = recorded("aabb", "move 3, move -3");
         back.walk(1);
         Check.play(back, "move -4, setMark 0 right, move 3, narrow 0, move -3");
         Check.is("moves in the view", back.run(0, 1), 2);
         Check.play(back, "widen, move 1, setMark 0 right, move 2, narrow 0, move -2");
         failing("move beyond the view", Foldback.NOT_ENOUGH, 0, back);
-        Foldback x = recorded("aabb", "move 0, search b");
+        Ed x = recorded("aabb", "move 0, search b");
         x.walk(0);
         failing("search", Foldback.NOT_FOUND, 1, x);
     }
 
     private static void promise17NoMark() {
         for (String command : new String[] {"clearMark 0", "jump 0", "narrow 0"}) {
-            Foldback x = Check.withBlock("ab");
+            Ed x = Check.withBlock("ab");
             x.setMark(0, true);
             Check.macro(x, 0, "move 0, " + command);
             x.walk(0);
             failing(command, Foldback.NO_MARK, 1, x);
         }
         for (String command : new String[] {"jump 0", "narrow 0"}) {
-            Foldback x = Check.withBlock("abcd");
+            Ed x = Check.withBlock("abcd");
             x.setMark(0, true);
             Check.macro(x, 1, command);
             x.walk(x.now());
@@ -214,7 +214,7 @@ public final class RunTest {
     }
 
     private static void promise17NoEntry() {
-        Foldback x = Check.withBlock("abcdef");
+        Ed x = Check.withBlock("abcdef");
         Check.to(x, 0);
         Check.play(x, "kill 1, kill 1, copy 1 1, track 1, track 4");
         Check.macro(x, 0, "yank");
@@ -236,7 +236,7 @@ public final class RunTest {
     }
 
     private static void promise17TooLong() {
-        Foldback x = Check.full();
+        Ed x = Check.full();
         Check.play(x, "move -1, kill 1");
         Check.macro(x, 0, "insert a");
         failing("insert", Foldback.TOO_LONG, 0, x);
@@ -250,7 +250,7 @@ public final class RunTest {
     }
 
     private static void promise17Views() {
-        Foldback x = Check.withBlock("ab");
+        Ed x = Check.withBlock("ab");
         x.setMark(0, true);
         Check.macro(x, 0, "narrow 0");
         Check.play(x, "narrow 0, narrow 0, narrow 0");
@@ -263,7 +263,7 @@ public final class RunTest {
     }
 
     private static void promise17Nested() {
-        Foldback x = recorded("", "insert a");
+        Ed x = recorded("", "insert a");
         Check.macro(x, 1, "run 0 2, insert b");
         Check.macro(x, 2, "run 1 1, run 3 5, checkpoint");
         x.walk(0);
@@ -272,7 +272,7 @@ public final class RunTest {
         Check.is("text", Check.text(x), "aabaab");
         Check.is("one change", x.nodes(), nodes + 1);
         Check.is("steps", x.stepsOf(x.now()), 6);
-        Foldback y = recorded("z", "insert c, checkpoint, insert d, search z");
+        Ed y = recorded("z", "insert c, checkpoint, insert d, search z");
         Check.macro(y, 1, "insert e, run 0 1, insert f");
         y.walk(0);
         Check.is("a checkpoint at level 2", y.run(1, 1), 4);
@@ -282,7 +282,7 @@ public final class RunTest {
     }
 
     private static void promise17TooDeep() {
-        Foldback x = recorded("", "insert a, run 0 1");
+        Ed x = recorded("", "insert a, run 0 1");
         x.walk(0);
         Check.is("a macro that runs itself", x.run(0, 1), 0);
         Check.is("reason", x.failureReason(), Foldback.TOO_DEEP);
@@ -294,7 +294,7 @@ public final class RunTest {
         Check.is("text", Check.text(x), "bbbbb");
         Check.is("reason", x.failureReason(), Foldback.TOO_DEEP);
         Check.is("command", x.failureCommand(), 2);
-        Foldback y = new Foldback();
+        Ed y = new Ed();
         Check.macro(y, 3, "run 2 1");
         Check.macro(y, 2, "move 0, run 3 1");
         y.run(3, 1);
@@ -306,7 +306,7 @@ public final class RunTest {
     }
 
     private static void promise17TooMany() {
-        Foldback x = recorded("", "insert a, insert a, insert a, insert a, insert a, insert a, "
+        Ed x = recorded("", "insert a, insert a, insert a, insert a, insert a, insert a, "
                 + "insert a, insert a, insert a, insert a, insert a, insert a");
         Check.is("commands", x.commands(0), 12);
         x.walk(0);
@@ -326,7 +326,7 @@ public final class RunTest {
     }
 
     private static void promise17TooManyAndTooDeep() {
-        Foldback x = recorded("", "move 0, move 0, move 0, run 0 1");
+        Ed x = recorded("", "move 0, move 0, move 0, run 0 1");
         x.run(0, 1);
         Check.is("the run of level 6 is the 20th", x.failureReason(), Foldback.TOO_DEEP);
         Check.is("command", x.failureCommand(), 3);
@@ -339,7 +339,7 @@ public final class RunTest {
         Check.is("the run of level 6 is the 24th", x.failureReason(), Foldback.TOO_DEEP);
         Check.is("command", x.failureCommand(), 4);
         // a 25th command that could not be done either
-        Foldback y = recorded("z", "move 0, move 0, move 0, move 0, move 0, move 0, move 0, move 0, move 0, move 0, move 0");
+        Ed y = recorded("z", "move 0, move 0, move 0, move 0, move 0, move 0, move 0, move 0, move 0, move 0, move 0");
         Check.macro(y, 1, "run 0 1, run 0 1, delete 1");
         y.walk(0);
         y.run(1, 1);
@@ -353,7 +353,7 @@ public final class RunTest {
     }
 
     private static void promise17Stores() {
-        Foldback x = Check.withBlock("abcdef");
+        Ed x = Check.withBlock("abcdef");
         Check.to(x, 0);
         Check.play(x, "track 1, track 4");
         Check.macro(x, 0, "copy 0 1, copy 1 1, kill 1, checkpoint, copy 0 2, copy 1 2, kill 2, search f");
@@ -369,7 +369,7 @@ public final class RunTest {
         Check.is("stored", x.storedByReplay(x.now(), 4), 1);
         Check.is("stored", x.storedByReplay(x.now(), 1), 1);
         Check.is("stored", x.storedByReplay(x.now(), 0), 0);
-        Foldback y = recorded("abz", "kill 1, copy 1 1, search z");
+        Ed y = recorded("abz", "kill 1, copy 1 1, search z");
         y.walk(1);
         Check.play(y, "move -1, delete 1, move -2");
         Check.is("a run that fails without a checkpoint", y.run(0, 1), 0);
@@ -378,7 +378,7 @@ public final class RunTest {
     }
 
     private static void promise17Listeners() {
-        Foldback x = recorded("", "insert a, move -1, search a");
+        Ed x = recorded("", "insert a, move -1, search a");
         x.walk(0);
         x.listen(0, 'a', 'c', 0);
         int nodes = x.nodes();
@@ -386,14 +386,14 @@ public final class RunTest {
         Check.is("but at its end", Check.text(x), "c");
         Check.is("one change", x.nodes(), nodes + 1);
         Check.is("with the replacement", x.stepsOf(x.now()), 2);
-        Foldback y = Check.withBlock("p");
+        Ed y = Check.withBlock("p");
         Check.macro(y, 0, "move -1, move 1");
         Check.chase(y);
         Check.is("a run without steps makes no change to notify of", y.run(0, 1), 2);
     }
 
     private static void promise17RefusedByListeners() {
-        Foldback x = recorded("z", "insert p, move -1, copy 3 1");
+        Ed x = recorded("z", "insert p, move -1, copy 3 1");
         Check.macro(x, 1, "insert p, checkpoint, search z");
         x.walk(0);
         Check.is("a run that fails", x.run(1, 1), 2);
@@ -411,7 +411,7 @@ public final class RunTest {
         x.unlisten(1);
         Check.is("without listeners", x.run(0, 1), 3);
         Check.is("register", Check.store(x, 3), "p");
-        Foldback y = Check.withBlock("abcdefghijp");
+        Ed y = Check.withBlock("abcdefghijp");
         Check.play(y, "move -11, copy 0 1, copy 1 2, copy 2 3, copy 3 4, kill 1, kill 1");
         Check.macro(y, 0, "copy 0 4, copy 1 4, copy 2 4, copy 3 5, kill 1, rotate, setMark 0 left");
         Check.play(y, "copy 0 1, copy 1 2, copy 2 3, copy 3 4");
@@ -420,7 +420,7 @@ public final class RunTest {
     }
 
     private static void promise17InGroup() {
-        Foldback x = recorded("z", "insert a, insert b");
+        Ed x = recorded("z", "insert a, insert b");
         Check.macro(x, 1, "insert d, checkpoint, insert e, search z");
         x.move(-1);
         Check.macro(x, 2, "insert f, search z");
@@ -440,7 +440,7 @@ public final class RunTest {
         Check.is("state", Check.replay(x, node), "cabd");
         Check.is("steps", x.stepsOf(node), 4);
         // the steps of a run that failed are in no change, so that none of them is undone either
-        Foldback y = recorded("z", "insert f, search z");
+        Ed y = recorded("z", "insert f, search z");
         y.walk(0);
         y.open();
         y.insert('a');
@@ -452,7 +452,7 @@ public final class RunTest {
     }
 
     private static void promise18Checkpoint() {
-        Foldback x = Check.typed("ab");
+        Ed x = Check.typed("ab");
         String was = Check.all(x);
         x.checkpoint();
         Check.is("nothing happens if it is called", Check.all(x), was);
@@ -475,7 +475,7 @@ public final class RunTest {
     }
 
     private static void promise19Record() {
-        Foldback x = new Foldback();
+        Ed x = new Ed();
         for (int bad : BAD_MACROS) {
             Check.refuses("record " + bad, Check.IOOBE, x, () -> x.record(bad));
         }
@@ -509,7 +509,7 @@ public final class RunTest {
     }
 
     private static void promise19FullList() {
-        Foldback x = Check.withBlock("abcdefghij");
+        Ed x = Check.withBlock("abcdefghij");
         Check.to(x, 0);
         Check.play(x, "kill 1, kill 1, copy 0 1, setMark 0 right, move 6");
         x.record(1);
@@ -536,7 +536,7 @@ public final class RunTest {
     }
 
     private static void promise20Stop() {
-        Foldback x = new Foldback();
+        Ed x = new Ed();
         Check.refuses("stop", Check.ISE, x, () -> x.stop());
         x.record(2);
         x.insert('a');
@@ -554,7 +554,7 @@ public final class RunTest {
     }
 
     private static void promise21Open() {
-        Foldback x = new Foldback();
+        Ed x = new Ed();
         x.open();
         Check.refuses("open again", Check.ISE, x, () -> x.open());
         Check.play(x, "insert a, insert b, move -1, overwrite c");
@@ -566,7 +566,7 @@ public final class RunTest {
         x.insert('d');
         Check.is("a second group", x.nodes(), 2);
         // in a group no listener is notified
-        Foldback y = new Foldback();
+        Ed y = new Ed();
         Check.chase(y);
         y.open();
         y.insert('p');
@@ -577,7 +577,7 @@ public final class RunTest {
     }
 
     private static void promise22Close() {
-        Foldback x = Check.typed("a");
+        Ed x = Check.typed("a");
         Check.refuses("close", Check.ISE, x, () -> x.close());
         x.open();
         Check.is("nothing in between", x.close(), 1);
@@ -607,7 +607,7 @@ public final class RunTest {
     }
 
     private static void promise22CloseAndListeners() {
-        Foldback x = Check.typed("a");
+        Ed x = Check.typed("a");
         x.open();
         Check.play(x, "insert p, insert b");
         Check.chase(x);
@@ -621,14 +621,14 @@ public final class RunTest {
         Check.is("text", Check.text(x), "aqbc");
         Check.is("steps", x.stepsOf(2), 4);
         Check.is("state", Check.replay(x, 2), "aqbc");
-        Foldback y = Check.withBlock("p");
+        Ed y = Check.withBlock("p");
         Check.chase(y);
         y.open();
         Check.is("no steps, no change, no listener", y.close(), 1);
     }
 
     private static void promise23Pass() {
-        Foldback x = Check.typed("a");
+        Ed x = Check.typed("a");
         String was = Check.all(x);
         for (int bad : new int[] {0, -1, 101, Integer.MIN_VALUE, Integer.MAX_VALUE}) {
             Check.refuses("pass " + bad, Check.IAE, x, () -> x.pass(bad));
@@ -646,7 +646,7 @@ public final class RunTest {
     }
 
     private static void promise24Track() {
-        Foldback x = Check.withBlock("abcdef");
+        Ed x = Check.withBlock("abcdef");
         Check.to(x, 0);
         Check.play(x, "copy 0 3, kill 1, kill 2");
         for (int bad : new int[] {-1, 5, Integer.MIN_VALUE, Integer.MAX_VALUE}) {
@@ -679,7 +679,7 @@ public final class RunTest {
     }
 
     private static void promise24TrackInGroup() {
-        Foldback x = Check.withBlock("abc");
+        Ed x = Check.withBlock("abc");
         Check.to(x, 0);
         x.open();
         Check.play(x, "copy 0 1, track 0, copy 0 2");
@@ -692,7 +692,7 @@ public final class RunTest {
     }
 
     private static void promise24TrackAndListeners() {
-        Foldback x = Check.withBlock("ap");
+        Ed x = Check.withBlock("ap");
         Check.to(x, 0);
         x.copy(0, 2);
         Check.chase(x);
@@ -711,7 +711,7 @@ public final class RunTest {
     }
 
     private static void trackedStoresAndWalks() {
-        Foldback x = Check.withBlock("abcd");
+        Ed x = Check.withBlock("abcd");
         Check.to(x, 0);
         x.track(4);
         Check.play(x, "kill 1, kill 1, copy 1 2");

@@ -36,7 +36,7 @@ public final class TreeTest {
     // ---- walks
 
     private static void promise25Undo() {
-        Foldback x = new Foldback();
+        Ed x = new Ed();
         Check.refuses("undo at the root", Check.ISE, x, () -> x.undo());
         Check.play(x, "insert a, insert -, insert b, setMark 0 right, move -2, setMark 1 left, narrow 0");
         Check.is("undo", x.undo(), 4);
@@ -55,14 +55,14 @@ public final class TreeTest {
         Check.is("nodes stay", x.nodes(), 6);
         x.open();
         Check.refuses("undo in a group at the root", Check.ISE, x, () -> x.undo());
-        Foldback y = Check.typed("p-");
+        Ed y = Check.typed("p-");
         Check.chase(y);
         Check.is("walks notify no listener", y.undo(), 1);
         Check.is("text", Check.text(y), "p");
     }
 
     private static void promise26Redo() {
-        Foldback x = new Foldback();
+        Ed x = new Ed();
         Check.refuses("redo without a child", Check.ISE, x, () -> x.redo());
         Check.play(x, "insert a, undo, insert b, undo, insert c, setMark 0 left, walk 1, walk 0");
         Check.is("the newest child", x.redo(), 3);
@@ -81,7 +81,7 @@ public final class TreeTest {
     }
 
     private static void promise27Walk() {
-        Foldback x = Check.typed("a-b");
+        Ed x = Check.typed("a-b");
         Check.play(x, "undo, undo, insert c, insert -, insert d");
         Check.is("up and down", x.walk(3), 5);
         Check.is("text", Check.text(x), "a-b");
@@ -113,7 +113,7 @@ public final class TreeTest {
     }
 
     private static void promise27WalkAndMerges() {
-        Foldback x = Check.typed("a-b-c");
+        Ed x = Check.typed("a-b-c");
         x.setBudget(3);
         // nodes 1 to 3 are merged into 4
         for (int gone = 1; gone <= 3; gone++) {
@@ -129,7 +129,7 @@ public final class TreeTest {
     // ---- undo within a region
 
     private static void promise28Arguments() {
-        Foldback x = Check.typed("abc");
+        Ed x = Check.typed("abc");
         int[][] bad = {{-1, 0}, {4, 4}, {0, 4}, {2, 1}, {0, -1}, {Integer.MIN_VALUE, 1}, {0, Integer.MAX_VALUE}, {4, 3}};
         for (int[] b : bad) {
             Check.refuses("undoIn " + b[0] + " " + b[1], Check.IAE, x, () -> x.undoIn(b[0], b[1]));
@@ -138,7 +138,7 @@ public final class TreeTest {
         Check.refuses("in a group", Check.ISE, x, () -> x.undoIn(0, 3));
         Check.refuses("the arguments come first", Check.IAE, x, () -> x.undoIn(0, 4));
         x.close();
-        Foldback y = new Foldback();
+        Ed y = new Ed();
         Check.refuses("nothing there", Check.ISE, y, () -> y.undoIn(0, 0));
         Check.refuses("beyond the empty text", Check.IAE, y, () -> y.undoIn(0, 1));
         Check.is("undoIn", x.undoIn(0, 3), 2);
@@ -153,14 +153,14 @@ public final class TreeTest {
     }
 
     /** Node 1 typed ab, node 2 cd behind it. */
-    private static Foldback twoWords() {
-        Foldback x = Check.typed("ab");
+    private static Ed twoWords() {
+        Ed x = Check.typed("ab");
         x.move(0);
         Check.type(x, "cd");
         return x;
     }
 
-    private static String afterUndoIn(Foldback x, int from, int to) {
+    private static String afterUndoIn(Ed x, int from, int to) {
         x.undoIn(from, to);
         return Check.text(x);
     }
@@ -172,7 +172,7 @@ public final class TreeTest {
         Check.is("ahead of it", afterUndoIn(twoWords(), 1, 1), "cd");
         Check.is("the start", afterUndoIn(twoWords(), 0, 0), "cd");
         Check.is("up to the place between", afterUndoIn(twoWords(), 0, 2), "ab");
-        Foldback x = Check.withBlock("0123456789");
+        Ed x = Check.withBlock("0123456789");
         Check.play(x, "move -5, insert a");
         Check.refuses("behind it, and the block has too many steps", Check.ISE, x, () -> x.undoIn(7, 11));
         Check.refuses("ahead of it", Check.ISE, x, () -> x.undoIn(0, 4));
@@ -180,65 +180,65 @@ public final class TreeTest {
     }
 
     private static void promise28Insertions() {
-        Foldback inside = Check.typed("ab");
+        Ed inside = Check.typed("ab");
         Check.play(inside, "move -1, insert x");
         Check.refuses("a covered trace", Check.ISE, inside, () -> inside.undoIn(0, 0));
         Check.is("the one that covers it", afterUndoIn(inside, 0, 3), "ab");
         Check.refuses("still covered", Check.ISE, inside, () -> inside.undoIn(0, 2));
-        Foldback ahead = Check.typed("ab");
+        Ed ahead = Check.typed("ab");
         Check.play(ahead, "move -2, insert x");
         Check.is("an insertion right ahead moves the trace", afterUndoIn(ahead, 3, 3), "x");
-        Foldback behind = Check.typed("ab");
+        Ed behind = Check.typed("ab");
         Check.play(behind, "move 0, insert x");
         Check.is("one right behind leaves it", afterUndoIn(behind, 0, 1), "x");
-        Foldback yank = Check.withBlock("012345678");
+        Ed yank = Check.withBlock("012345678");
         Check.play(yank, "move -9, kill 3, move 2, yank, move -5, insert x");
         Check.is("an insertion of several characters", afterUndoIn(yank, 5, 5), "x345678");
     }
 
     private static void promise28InsertionsMoveTraces() {
-        Foldback deletion = Check.withBlock("0123456789");
+        Ed deletion = Check.withBlock("0123456789");
         Check.play(deletion, "move -5, delete 1, move -1, insert x");
         Check.is("an insertion ahead of a place", afterUndoIn(deletion, 6, 6), "0123x456789");
-        Foldback at = Check.withBlock("0123456789");
+        Ed at = Check.withBlock("0123456789");
         Check.play(at, "move -5, delete 1, insert x");
         Check.refuses("an insertion at the very place covers it", Check.ISE, at, () -> at.undoIn(7, 10));
         at.undoIn(6, 10);
         Check.refuses("still", Check.ISE, at, () -> at.undoIn(0, 9));
-        Foldback behind = Check.withBlock("0123456789");
+        Ed behind = Check.withBlock("0123456789");
         Check.play(behind, "move -5, delete 1, move 1, insert x");
         Check.is("an insertion behind it", afterUndoIn(behind, 5, 5), "0123456x789");
-        Foldback replacement = Check.withBlock("0123456789");
+        Ed replacement = Check.withBlock("0123456789");
         Check.play(replacement, "move -5, overwrite x, move -1, insert y");
         Check.is("an insertion right ahead of a replacement", afterUndoIn(replacement, 7, 7), "01234y56789");
-        Foldback right = Check.withBlock("0123456789");
+        Ed right = Check.withBlock("0123456789");
         Check.play(right, "move -5, overwrite x, insert y");
         Check.is("an insertion right behind it", afterUndoIn(right, 5, 5), "012345y6789");
     }
 
     private static void promise28DeletionsMoveTraces() {
-        Foldback ahead = twoWords();
+        Ed ahead = twoWords();
         Check.play(ahead, "move -4, delete 1");
         Check.is("a deletion ahead", afterUndoIn(ahead, 3, 3), "b");
-        Foldback right = twoWords();
+        Ed right = twoWords();
         Check.play(right, "move -4, delete 2");
         Check.is("a deletion right ahead", afterUndoIn(right, 1, 2), "");
-        Foldback behind = twoWords();
+        Ed behind = twoWords();
         Check.play(behind, "move -2, delete 2");
         Check.is("a deletion right behind", afterUndoIn(behind, 0, 1), "");
-        Foldback inside = twoWords();
+        Ed inside = twoWords();
         Check.play(inside, "move -3, delete 2");
         Check.refuses("a deletion that takes a part", Check.ISE, inside, () -> inside.undoIn(0, 0));
         Check.refuses("a deletion that takes a part", Check.ISE, inside, () -> inside.undoIn(2, 2));
-        Foldback place = Check.withBlock("0123456789");
+        Ed place = Check.withBlock("0123456789");
         Check.play(place, "move -5, delete 1, move -1, delete 2");
         Check.is("a deletion around a place", afterUndoIn(place, 4, 4), "012346789");
         Check.refuses("covers it", Check.ISE, place, () -> place.undoIn(0, 9));
-        Foldback up = Check.withBlock("0123456789");
+        Ed up = Check.withBlock("0123456789");
         // the replacement at the end has the change found, though a later one has its place at 3 too
         Check.play(up, "move -5, open, delete 1, move 3, overwrite x, close, move -6, delete 2");
         Check.is("a deletion up to a place moves it back", afterUndoIn(up, 7, 7), "01256789");
-        Foldback from = Check.withBlock("0123456789");
+        Ed from = Check.withBlock("0123456789");
         Check.play(from, "move -5, delete 1, delete 2");
         from.setBookmark(0);
         Check.is("the later one first", afterUndoIn(from, 5, 5), "012346789");
@@ -246,7 +246,7 @@ public final class TreeTest {
     }
 
     private static void promise28Deletions() {
-        Foldback x = Check.withBlock("abcdef");
+        Ed x = Check.withBlock("abcdef");
         Check.play(x, "move -4, delete 2");
         Check.is("inserted again", afterUndoIn(x, 2, 2), "abcdef");
         Check.is("node", x.now(), 3);
@@ -255,7 +255,7 @@ public final class TreeTest {
         Check.is("state", Check.text(x), "abef");
         Check.is("a second time from there", x.undoIn(0, 4), 4);
         Check.is("text", Check.text(x), "abcdef");
-        Foldback kill = Check.withBlock("abcdefghij");
+        Ed kill = Check.withBlock("abcdefghij");
         kill.track(4);
         Check.play(kill, "move -8, kill 3");
         Check.is("a kill is undone in the text", afterUndoIn(kill, 2, 2), "abcdefghij");
@@ -264,45 +264,45 @@ public final class TreeTest {
     }
 
     private static void promise28Replacements() {
-        Foldback x = Check.withBlock("0123456789");
+        Ed x = Check.withBlock("0123456789");
         Check.play(x, "move -5, overwrite x");
         Check.refuses("ahead", Check.ISE, x, () -> x.undoIn(0, 4));
         Check.refuses("behind", Check.ISE, x, () -> x.undoIn(7, 10));
         Check.is("right behind", afterUndoIn(x, 6, 10), "0123456789");
         Check.refuses("covered by its opposite", Check.ISE, x, () -> x.undoIn(0, 10));
-        Foldback twice = Check.withBlock("0123456789");
+        Ed twice = Check.withBlock("0123456789");
         Check.play(twice, "move -5, overwrite x, move -1, overwrite y");
         Check.is("the later one", afterUndoIn(twice, 5, 5), "01234x6789");
         Check.refuses("the earlier one is covered", Check.ISE, twice, () -> twice.undoIn(0, 10));
-        Foldback beside = Check.withBlock("0123456789");
+        Ed beside = Check.withBlock("0123456789");
         Check.play(beside, "move -5, overwrite x, overwrite y, move -3, overwrite z");
         Check.is("others beside it do not cover it", afterUndoIn(beside, 6, 6), "0123zx6789");
-        Foldback typed = Check.typed("abc");
+        Ed typed = Check.typed("abc");
         Check.play(typed, "move -1, overwrite x");
         Check.refuses("a replacement covers an insertion", Check.ISE, typed, () -> typed.undoIn(0, 0));
-        Foldback place = Check.withBlock("0123456789");
+        Ed place = Check.withBlock("0123456789");
         Check.play(place, "move -5, open, delete 1, move 3, overwrite x, close, move -4, overwrite y");
         Check.is("but no place", afterUndoIn(place, 9, 9), "012345y789");
     }
 
     private static void promise28SeveralSteps() {
-        Foldback back = Check.withBlock("abcdefghi");
+        Ed back = Check.withBlock("abcdefghi");
         Check.play(back, "move -6, open, delete 1, move -1, delete 1, close");
         Check.is("text", Check.text(back), "abefghi");
         Check.is("the later deletion had moved the earlier place back", afterUndoIn(back, 2, 2), "abcdefghi");
         Check.is("two steps", back.stepsOf(back.now()), 2);
-        Foldback stays = Check.withBlock("abcdefghi");
+        Ed stays = Check.withBlock("abcdefghi");
         Check.play(stays, "move -7, open, delete 1, delete 1, close");
         Check.is("the later deletion had not moved it", afterUndoIn(stays, 2, 2), "abcdefghi");
-        Foldback three = Check.withBlock("abcdefghi");
+        Ed three = Check.withBlock("abcdefghi");
         Check.play(three, "move -6, open, delete 1, move -1, delete 1, delete 1, move -2, delete 1, close");
         Check.is("text", Check.text(three), "bfghi");
         Check.is("several", afterUndoIn(three, 1, 1), "abcdefghi");
-        Foldback again = Check.withBlock("abcdefghi");
+        Ed again = Check.withBlock("abcdefghi");
         Check.play(again, "move -6, open, delete 1, move -1, delete 1, close, undoIn 2 2, walk 1, move -7, open, delete 1, delete 1, close");
         Check.is("text", Check.text(again), "abefghi");
         Check.is("what moved in another change does not count", afterUndoIn(again, 2, 2), "abcdefghi");
-        Foldback apart = Check.withBlock("abcdefghi");
+        Ed apart = Check.withBlock("abcdefghi");
         Check.play(apart, "move -5, open, delete 1, move -3, delete 1, close");
         Check.is("text", Check.text(apart), "acdfghi");
         Check.is("apart from one another", afterUndoIn(apart, 3, 3), "abcdefghi");
@@ -310,44 +310,44 @@ public final class TreeTest {
         Check.play(apart, "undo, move 0, delete 2");
         Check.is("text", Check.text(apart), "afghi");
         Check.is("only the later change has its place there", afterUndoIn(apart, 1, 1), "acdfghi");
-        Foldback mixed = Check.withBlock("abcdefghi");
+        Ed mixed = Check.withBlock("abcdefghi");
         Check.play(mixed, "move -9, open, insert x, move 2, overwrite y, move 1, delete 2, close");
         Check.is("text", Check.text(mixed), "xabydghi");
         Check.refuses("no trace in the region", Check.ISE, mixed, () -> mixed.undoIn(2, 2));
         Check.is("one trace in the region is enough", afterUndoIn(mixed, 5, 8), "abcdefghi");
-        Foldback met = Check.withBlock("abcdefghi");
+        Ed met = Check.withBlock("abcdefghi");
         Check.play(met, "move -5, open, delete 1, move -3, delete 1, move 5, overwrite x, close, move -6, delete 2");
         Check.is("places that met later on, the later deletion had moved the earlier place", afterUndoIn(met, 5, 5), "abefghi");
-        Foldback other = Check.withBlock("abcdefghi");
+        Ed other = Check.withBlock("abcdefghi");
         Check.play(other, "move -8, open, delete 1, move 2, delete 1, move 3, overwrite x, close, move -6, delete 2");
         Check.is("the later deletion had not moved it", afterUndoIn(other, 5, 5), "abefghi");
     }
 
     private static void promise28HowManySteps() {
-        Foldback eight = Check.withBlock("abcdefgh");
+        Ed eight = Check.withBlock("abcdefgh");
         Check.is("8 text steps", afterUndoIn(eight, 0, 0), "");
         Check.is("steps", eight.stepsOf(2), 8);
-        Foldback ahead = Check.withBlock("abcdefgh");
+        Ed ahead = Check.withBlock("abcdefgh");
         Check.play(ahead, "insert x");
         Check.is("ahead of another change", afterUndoIn(ahead, 0, 0), "x");
-        Foldback later = Check.withBlock("abcdefgh");
+        Ed later = Check.withBlock("abcdefgh");
         Check.block(later, "ijklmnop");
         Check.is("behind another change", afterUndoIn(later, 16, 16), "abcdefgh");
-        Foldback refused = Check.typed("z");
+        Ed refused = Check.typed("z");
         Check.chase(refused);
         Check.refuses("refused by listeners", Check.ISE, refused, () -> refused.insert('p'));
         refused.unlisten(0);
         refused.unlisten(1);
         Check.block(refused, "abcdefgh");
         Check.is("steps of a call that threw are not counted", afterUndoIn(refused, 9, 9), "z");
-        Foldback nine = Check.withBlock("abcdefghi");
+        Ed nine = Check.withBlock("abcdefghi");
         Check.refuses("9 text steps", Check.ISE, nine, () -> nine.undoIn(0, 9));
-        Foldback marks = Check.typed("ab");
+        Ed marks = Check.typed("ab");
         Check.play(marks, "setMark 0 right, track 0");
         Check.is("changes without text steps are passed over", afterUndoIn(marks, 0, 0), "");
         Check.is("node", marks.now(), 4);
         Check.is("mark", marks.markAt(0), 0);
-        Foldback more = new Foldback();
+        Ed more = new Ed();
         Check.play(more, "open, setMark 0 left, insert a, insert b, insert c, insert d, insert e, insert f, insert g, insert h, setMark 1 left, close");
         Check.is("10 steps", more.stepsOf(1), 10);
         Check.is("only text steps count", afterUndoIn(more, 0, 0), "");
@@ -356,7 +356,7 @@ public final class TreeTest {
     }
 
     private static void promise28RegionUndoIsSkipped() {
-        Foldback x = twoWords();
+        Ed x = twoWords();
         Check.is("the last one", afterUndoIn(x, 0, 4), "ab");
         Check.is("the one before it", afterUndoIn(x, 0, 2), "");
         Check.is("node", x.now(), 4);
@@ -370,7 +370,7 @@ public final class TreeTest {
     }
 
     private static void promise28PointAndMarks() {
-        Foldback x = Check.withBlock("0123456789");
+        Ed x = Check.withBlock("0123456789");
         Check.play(x, "move -5, setMark 0 left, setMark 1 right, delete 2, setMark 2 left, setMark 3 right, move 1, setMark 4 left, move -1");
         x.undoIn(5, 5);
         Check.is("the point at the place stays", x.point(), 5);
@@ -382,30 +382,30 @@ public final class TreeTest {
         x.move(-1);
         x.walk(x.now());
         Check.is("the node's point", x.point(), 5);
-        Foldback y = Check.withBlock("0123456789");
+        Ed y = Check.withBlock("0123456789");
         Check.play(y, "move -5, delete 2, move 1");
         y.undoIn(5, 5);
         Check.is("a point behind moves", y.point(), 8);
-        Foldback z = twoWords();
+        Ed z = twoWords();
         Check.play(z, "move -3");
         z.undoIn(0, 1);
         Check.is("a point in deleted characters", z.point(), 0);
     }
 
     private static void promise28TooLong() {
-        Foldback x = Check.full();
+        Ed x = Check.full();
         Check.play(x, "move -1, delete 1, move -1, insert x");
         Check.refuses("401 characters", Check.ISE, x, () -> x.undoIn(400, 400));
         Check.play(x, "delete 1, setMark 0 left");
         Check.is("400 characters", x.undoIn(399, 399) > 0, true);
-        Foldback y = Check.full();
+        Ed y = Check.full();
         Check.play(y, "move -5, delete 1, open, insert y, delete 1, close, move -50, insert x");
         // of the group only the insertion of y would be left to take back when there are 401
         Check.refuses("401 behind one of the opposites", Check.ISE, y, () -> y.undoIn(397, 397));
         Check.play(y, "move -1, delete 1");
         Check.is("with room it is undone", y.undoIn(396, 396) > 0, true);
         Check.is("length", y.length(), 399);
-        Foldback z = Check.full();
+        Ed z = Check.full();
         Check.play(z, "move -5, open, setMark 0 right, delete 2, delete 1, close, move -50, insert x, insert x");
         Check.refuses("the second opposite", Check.ISE, z, () -> z.undoIn(397, 397));
         Check.play(z, "setMark 1 left, move -2, delete 2");
@@ -414,11 +414,11 @@ public final class TreeTest {
     }
 
     private static void promise28Listeners() {
-        Foldback x = twoWords();
+        Ed x = twoWords();
         x.listen(0, 'a', 'e', 0);
         Check.is("listeners are notified", afterUndoIn(x, 4, 4), "eb");
         Check.is("two steps", x.stepsOf(3), 2);
-        Foldback y = Check.typed("p-");
+        Ed y = Check.typed("p-");
         y.move(0);
         Check.chase(y);
         Check.refuses("too deep", Check.ISE, y, () -> y.undoIn(2, 2));
@@ -428,7 +428,7 @@ public final class TreeTest {
     }
 
     private static void promise28Merged() {
-        Foldback x = twoWords();
+        Ed x = twoWords();
         x.setBookmark(0);
         x.undoIn(4, 4);
         Check.play(x, "move -2, insert x, setBudget 4");
@@ -437,16 +437,16 @@ public final class TreeTest {
         x.setBudget(3);
         Check.is("the region undo is merged into the insertion", x.stepsOf(4), 2);
         Check.is("which is no region undo: both are undone", afterUndoIn(x, 3, 3), "abcd");
-        Foldback y = twoWords();
+        Ed y = twoWords();
         Check.play(y, "setBookmark 0, walk 1, setBookmark 1, walk 2, undoIn 4 4, undoIn 0 0, setBudget 4");
         Check.is("two region undos are merged", y.stepsOf(4), 2);
         Check.is("into one", y.parentOf(4), 2);
         Check.refuses("which is a region undo", Check.ISE, y, () -> y.undoIn(0, 0));
-        Foldback w = twoWords();
+        Ed w = twoWords();
         Check.play(w, "setBookmark 0, walk 1, setBookmark 1, walk 2, insert x, undoIn 0 1, setBudget 4");
         Check.is("an insertion is merged into a region undo", w.stepsOf(4), 2);
         Check.is("which is no region undo then", afterUndoIn(w, 0, 0), "abcd");
-        Foldback z = twoWords();
+        Ed z = twoWords();
         z.setBudget(2);
         Check.is("merged changes", z.stepsOf(2), 2);
         Check.is("are undone together", afterUndoIn(z, 4, 4), "");
@@ -455,7 +455,7 @@ public final class TreeTest {
     // ---- bookmarks and the budget
 
     private static void promise29SetBookmark() {
-        Foldback x = Check.typed("a-");
+        Ed x = Check.typed("a-");
         Check.is("set", x.setBookmark(0), Foldback.NONE);
         x.undo();
         Check.is("set to another node", x.setBookmark(0), 2);
@@ -473,7 +473,7 @@ public final class TreeTest {
     }
 
     private static void promise30ClearBookmark() {
-        Foldback x = Check.typed("a-b");
+        Ed x = Check.typed("a-b");
         Check.is("not set", x.clearBookmark(0), Foldback.NONE);
         x.undo();
         x.setBookmark(0);
@@ -493,7 +493,7 @@ public final class TreeTest {
     }
 
     private static void promise31SetBudget() {
-        Foldback x = Check.typed("a-b-c-");
+        Ed x = Check.typed("a-b-c-");
         for (int bad : new int[] {1, 0, -1, 601, Integer.MIN_VALUE, Integer.MAX_VALUE}) {
             Check.refuses("setBudget " + bad, Check.IAE, x, () -> x.setBudget(bad));
         }
@@ -521,7 +521,7 @@ public final class TreeTest {
     }
 
     private static void promise31WhatCanBeMerged() {
-        Foldback x = Check.typed("a-b-");
+        Ed x = Check.typed("a-b-");
         Check.play(x, "walk 2, insert c, insert -, insert d, walk 3");
         // 0 - 1 - 2 - 3 - 4 and 2 - 5 - 6 - 7, the current node is 3
         x.setBudget(5);
@@ -540,7 +540,7 @@ public final class TreeTest {
         Check.is("the current one is another", x.setBudget(2), 1);
         Check.is("node 3", Check.exists(x, 3), false);
         Check.is("point of node 4", x.point(), 4);
-        Foldback y = Check.typed("a-b-");
+        Ed y = Check.typed("a-b-");
         Check.play(y, "walk 1, setBookmark 2, walk 4, setBudget 2");
         Check.is("a bookmark keeps its node", y.nodes(), 3);
         Check.is("node 1", Check.exists(y, 1), true);
@@ -551,7 +551,7 @@ public final class TreeTest {
     }
 
     private static void promise31MergedChanges() {
-        Foldback x = new Foldback();
+        Ed x = new Ed();
         Check.play(x, "setMark 0 right, insert a, insert -, move -1, setMark 1 left, delete 1, insert z, track 2, walk 0, walk 7");
         String replay = Check.replay(x, 6);
         int mark = x.markByReplay(6, 1);
@@ -567,7 +567,7 @@ public final class TreeTest {
         Check.is("point", x.point(), point);
         Check.is("text", Check.text(x), replay);
         // the steps of the merged node come first
-        Foldback y = Check.withBlock("abcdefghi");
+        Ed y = Check.withBlock("abcdefghi");
         Check.play(y, "move -6, delete 1, move -1, delete 1, setBookmark 0, walk 1, setBookmark 1, walk 3, setBudget 3");
         Check.is("merged", y.stepsOf(3), 2);
         Check.is("undone from the last to the first", afterUndoIn(y, 2, 2), "abcdefghi");
@@ -576,7 +576,7 @@ public final class TreeTest {
     // ---- listeners
 
     private static void promise32Listen() {
-        Foldback x = Check.typed("ab");
+        Ed x = Check.typed("ab");
         for (int bad : new int[] {-1, 3, Integer.MIN_VALUE, Integer.MAX_VALUE}) {
             Check.refuses("listen " + bad, Check.IOOBE, x, () -> x.listen(bad, 'a', 'b', 0));
             Check.refuses("the listener comes first", Check.IOOBE, x, () -> x.listen(bad, 9, 9, -1));
@@ -608,7 +608,7 @@ public final class TreeTest {
         Check.is("also ahead of the view", Check.text(x), "\nBc a ");
         Check.is("the point stays", x.point(), 4);
         Check.is("the view stays", x.viewStart(), 4);
-        Foldback y = Check.typed("xxx");
+        Ed y = Check.typed("xxx");
         y.listen(2, 'x', 'y', 0);
         y.insert('-');
         Check.is("its own replacement notifies it again", Check.text(y), "yyy-");
@@ -616,7 +616,7 @@ public final class TreeTest {
     }
 
     private static void promise32Order() {
-        Foldback x = new Foldback();
+        Ed x = new Ed();
         x.listen(0, 'a', 'b', 3);
         x.listen(1, 'a', 'c', 1);
         x.listen(2, 'a', 'd', 2);
@@ -628,14 +628,14 @@ public final class TreeTest {
         x.listen(0, 'a', 'b', 2);
         x.insert('a');
         Check.is("of the same rank the lowest number", Check.text(x), "cdb");
-        Foldback y = new Foldback();
+        Ed y = new Ed();
         y.listen(0, 'a', 'b', 0);
         y.listen(1, 'b', 'c', 1);
         y.listen(2, 'b', 'd', 2);
         y.insert('a');
         Check.is("a replacement is told before the next listener is notified", Check.text(y), "c");
         Check.is("steps", y.stepsOf(1), 3);
-        Foldback z = Check.typed("ba");
+        Ed z = Check.typed("ba");
         z.listen(0, 'a', 'b', 0);
         z.listen(1, 'b', 'c', 1);
         z.insert('-');
@@ -644,13 +644,13 @@ public final class TreeTest {
     }
 
     private static void promise32Depth() {
-        Foldback x = Check.withBlock("aaaaaaa");
+        Ed x = Check.withBlock("aaaaaaa");
         x.listen(1, 'a', 'b', 0);
         x.insert('-');
         Check.is("seven replacements, one within the other", Check.text(x), "bbbbbbb-");
         Check.is("steps", x.stepsOf(2), 8);
         Check.is("no chain", Check.chain(x), "-1 -1 -1 -1 -1 -1 -1 -1");
-        Foldback y = Check.withBlock("aaaaaaaa");
+        Ed y = Check.withBlock("aaaaaaaa");
         y.listen(1, 'a', 'b', 0);
         Check.refuses("the eighth", Check.ISE, y, () -> y.insert('-'));
         Check.is("chain", Check.chain(y), "1 1 1 1 1 1 1 1");
@@ -667,7 +667,7 @@ public final class TreeTest {
     }
 
     private static void promise33Unlisten() {
-        Foldback x = new Foldback();
+        Ed x = new Ed();
         for (int bad : new int[] {-1, 3, Integer.MIN_VALUE, Integer.MAX_VALUE}) {
             Check.refuses("unlisten " + bad, Check.IOOBE, x, () -> x.unlisten(bad));
         }
