@@ -30,6 +30,10 @@ final class Ed {
         return act(new Call(name, arguments));
     }
 
+    int callsLeft() {
+        return CALLS - past.size();
+    }
+
     /** What a call answers, in words. */
     String told(String name, int... arguments) {
         try {

@@ -20,7 +20,9 @@ public final class FaceTest {
         Constructor<?>[] constructors = Foldback.class.getDeclaredConstructors();
         Check.is("constructors", constructors.length, 1);
         Check.is("public", Modifier.isPublic(constructors[0].getModifiers()), true);
-        Check.is("final class", Modifier.isFinal(Foldback.class.getModifiers()), true);
+        Check.is("public final class", Foldback.class.getModifiers(), Modifier.PUBLIC | Modifier.FINAL);
+        Check.is("its parent brings no members", Foldback.class.getSuperclass() == Object.class, true);
+        Check.is("no more does an interface", Foldback.class.getInterfaces().length, 0);
         nothingElse();
         Check.end("FaceTest");
     }
@@ -41,6 +43,7 @@ public final class FaceTest {
         Set<String> got = new TreeSet<>();
         for (Method method : Foldback.class.getDeclaredMethods()) {
             if (Modifier.isPublic(method.getModifiers())) {
+                Check.is(method.getName() + " is public and nothing else", method.getModifiers(), Modifier.PUBLIC);
                 got.add(method.getReturnType() + " " + method.getName() + "(" + names(method.getParameterTypes()) + ")"
                         + (method.getExceptionTypes().length == 0 ? "" : " throws " + names(method.getExceptionTypes())));
             }

@@ -91,6 +91,13 @@ final class MacroEdges {
             // it is the list that was full
             Script.on(x, "commands 2 = 16; record 3; " + command + "; stop = 1");
         }
+        // it is the list that refuses, before listeners are asked: the chain stays
+        for (String command : new String[] {"insert 'a'", "overwrite 'a'", "delete 1", "kill 1", "yank", "paste 0", "setMark 0 left", "run 0 1"}) {
+            String chase = "macro 0 \"setMark 1 left\"; block \"abxd\"; to 0; copy 0 1; kill 1; listen 0 'x' 'y' 0; listen 1 'y' 'x' 0\n";
+            Script.run(chase + "record 1; repeat 16 \"move 0\"\n" + command + " ! ISE; chain = \"-1 -1 -1 -1 -1 -1 -1 -1\"; stop = 16\n"
+                    + command + " ! DEPTH; chain = \"0 1 0 1 0 1 0 1\"; listen 2 'x' 'y' 0; listen 0 'x' 'z' 1; record 1; repeat 16 \"move 0\"\n"
+                    + command + " ! ISE; chain = \"0 1 0 1 0 1 0 1\"; stop; " + command + " ! DEPTH; chain = \"2 1 2 1 2 1 2 1\"");
+        }
         // calls that are no commands are made all the same
         Script.run(READY + """
             record 2; repeat 16 "move 0"
